@@ -1,0 +1,3 @@
+/** placeholder */
+final class Talk {
+}
