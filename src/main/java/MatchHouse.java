@@ -47,8 +47,8 @@ public final class MatchHouse {
         store.kept = 0;
         runner.close();
         reader.readModule();
-        fault = reader.fault;
-        faultPlace = fault == 0 ? BAD : reader.place;
+        fault = lexer.fault;
+        faultPlace = fault == 0 ? BAD : lexer.faultPlace;
         ready = fault == 0;
         if (ready) {
             types.settle();
@@ -79,17 +79,11 @@ public final class MatchHouse {
     public int value() {
         if (!ready) return BAD;
         if (store.kept >= Store.KEPT_MOST) return FULL;
-        int start = reader.readValue();
-        fault = reader.fault;
-        faultPlace = fault == 0 ? BAD : reader.place;
-        int answer = -10 - fault;
-        if (fault == 0) {
-            code.clear();
-            int error = code.work(start);
-            answer = error != 0 ? -20 - error : store.keep(code.stack, code.topAt());
-        }
-        reader.forgetValue();
-        return answer;
+        int error = reader.workValue();
+        fault = lexer.fault;
+        faultPlace = fault == 0 ? BAD : lexer.faultPlace;
+        if (fault != 0) return -10 - fault;
+        return error != 0 ? -20 - error : store.keep(code.stack, code.topAt());
     }
 
     public int named() {
@@ -141,7 +135,7 @@ public final class MatchHouse {
 
     public int tell(int v) {
         if (!isKept(v)) return BAD;
-        return codes.write(store.cells, keptAt(v));
+        return codes.writeText(store.cells, keptAt(v));
     }
 
     public int letter(int i) {
@@ -170,7 +164,7 @@ public final class MatchHouse {
         if (!isKept(v) || !isType(type)) return BAD;
         int root = types.roots[type];
         if (!types.holds(store.cells, keptAt(v), root)) return NONE;
-        return codes.write(store.cells, keptAt(v), root);
+        return codes.writeBits(store.cells, keptAt(v), root);
     }
 
     public int bit(int i) {
@@ -334,7 +328,7 @@ public final class MatchHouse {
         return isPart(c) && port >= 0 && port < plan.portCount[runner.parts[c].kind];
     }
 
-    /** The text, the tokens in it, and the words that stand in the module's text. */
+    /** The text, the row of its tokens, and the words that stand in the module's text. */
     static final class Lexer {
         static final int MOST = 12_000;
         static final int WORD = 1, NUMBER = 2, TEXT = 3, END = 4, STOP = 5;
@@ -347,7 +341,7 @@ public final class MatchHouse {
             INTO = 242, SET = 243, PASS = 244, INCONC = 245, FAIL = 246, LOG = 247, SEND = 248, ALT = 249, BEGIN = 250,
             HALT = 251, CREATE = 252, START = 253, AS = 254, CONNECT = 255, AT = 256, WITH = 257, STOPS = 258, USUAL = 259,
             UNUSUAL = 260, STEP = 261, RECEIVE = 262, FROM = 263, TIMEOUT = 264, DONE = 265;
-        /** How many words are reserved: the first ones of all. */
+        /** How many words are reserved: the first ones of all, in the order of their tokens. */
         static final int RESERVED = 66;
         private static final String RESERVED_WORDS = "type template component function altstep case on port timer var int bool text enum record choice list of optional length ifpresent true false omit not both pattern subset superset perm size me now verdict met ended active if else while return call into set pass inconc fail log send alt begin halt create start as connect at with stop usual unusual step receive from timeout done ";
         // Words of up to twelve signs in 12,000 bytes: fewer than 3,900 of them differ; twice, for value()'s own.
@@ -355,14 +349,20 @@ public final class MatchHouse {
 
         private final byte[] text = new byte[MOST];
         int length;
-        int at;
+        private int at;
+        /** The tokens up to the text's end or the first STOP: their sorts, places and what they tell. */
+        private final int[] sorts = new int[MOST + 1];
+        private final int[] places = new int[MOST + 1];
+        private final long[] tellings = new long[MOST + 1];
+        private int tokens;
+        // The token that is looked at.
+        private int current;
         int token;
         int place;
-        int word;
-        long number;
-        int textFrom;
-        int textSize;
-        boolean takesNew;
+        /** Of a WORD its number, of a NUMBER itself, of a TEXT how many signs. */
+        long telling;
+        int fault;
+        int faultPlace;
         int words;
         final int[] meaning = new int[WORDS];
         final boolean[] inEnum = new boolean[WORDS];
@@ -370,14 +370,13 @@ public final class MatchHouse {
         private final int[] tails = new int[WORDS];
         private final int[] slotOf = new int[WORDS];
         private final int[] slots = new int[SLOTS];
-        private int freeSlot;
 
         Lexer() {
             int from = 0;
             for (int i = 0; i < RESERVED_WORDS.length(); i++) {
+                text[i - from] = (byte) RESERVED_WORDS.charAt(i);
                 if (RESERVED_WORDS.charAt(i) == ' ') {
-                    for (int k = from; k < i; k++) text[k - from] = (byte) RESERVED_WORDS.charAt(k);
-                    addWord(packed(0, Math.min(i - from, 8)), (int) packed(8, i - from));
+                    wordOf(0, i - from);
                     from = i + 1;
                 }
             }
@@ -406,30 +405,80 @@ public final class MatchHouse {
             return length;
         }
 
-        /** The number of what is told in the module by the one WORD that is the text. */
+        /** The number of what is told in the module by the one WORD that is the text, which is empty then. */
         int meaningOfText() {
-            takesNew = false;
-            at = 0;
-            toNext();
-            int only = token == WORD ? word : -1;
-            if (token == WORD) toNext();
-            boolean single = token == END;
+            int known = words;
+            scan();
+            int word = token == WORD ? word() : 0;
+            advance();
+            int found = token == END && meaning[word] > 0 ? meaning[word] - 1 : NONE;
+            forget(known);
             length = 0;
-            return only >= 0 && single && meaning[only] > 0 ? meaning[only] - 1 : NONE;
+            return found;
         }
 
-        void toNext() {
-            skipBlanks();
-            place = at;
-            if (at >= length) {
-                token = END;
-                return;
+        // ---- tokens
+
+        /** Finds all tokens, up to the first that is none; the first one is looked at then. */
+        void scan() {
+            tokens = 0;
+            at = 0;
+            int sort = 0;
+            for (int i = 0; i <= MOST && sort != END && sort != STOP; i++) {
+                skipBlanks();
+                telling = 0;
+                places[i] = at;
+                sort = at >= length ? END : readToken(text[at] & 255);
+                sorts[i] = sort;
+                tellings[i] = telling;
+                tokens++;
             }
-            int c = text[at] & 255;
-            if (isLetter(c)) readWord();
-            else if (isDigit(c)) readNumber();
-            else if (c == '"') readText();
-            else readSign(c);
+            fault = 0;
+            faultPlace = 0;
+            current = -1;
+            advance();
+        }
+
+        /** The next token is looked at; behind the last one, or a fault, there is none. */
+        void advance() {
+            if (fault != 0 || current + 1 >= tokens) return;
+            current++;
+            token = sorts[current];
+            place = places[current];
+            telling = tellings[current];
+            if (token == STOP) {
+                fault = 1;
+                faultPlace = place;
+            }
+        }
+
+        /** The first fault stays; behind it no token is any more. */
+        void fail(int which) {
+            if (fault != 0) return;
+            fault = which;
+            faultPlace = place;
+            token = STOP;
+        }
+
+        void need(int sort) {
+            if (token == sort) advance();
+            else fail(2);
+        }
+
+        boolean take(int sort) {
+            if (token != sort) return false;
+            advance();
+            return true;
+        }
+
+        int word() {
+            return (int) telling;
+        }
+
+        /** A sign of the TEXT that is looked at. */
+        int signOfText(int i) {
+            int k = place + 1 + i;
+            return k >= 0 && k < MOST ? text[k] & 127 : 32;
         }
 
         private void skipBlanks() {
@@ -442,6 +491,16 @@ public final class MatchHouse {
             }
         }
 
+        private int readToken(int c) {
+            if (isLetter(c)) return readWord();
+            if (isDigit(c)) return readNumber();
+            if (c == '"') return readText();
+            int next = at + 1 < length ? text[at + 1] & 255 : 0;
+            int pair = pairOf(c, next);
+            at += pair != 0 ? 2 : 1;
+            return pair != 0 ? pair : isSign(c) ? c : STOP;
+        }
+
         private static boolean isLetter(int c) {
             return c >= 'a' && c <= 'z' || c >= 'A' && c <= 'Z';
         }
@@ -450,70 +509,36 @@ public final class MatchHouse {
             return c >= '0' && c <= '9';
         }
 
-        private void readWord() {
-            int i = at;
-            while (i < length && (isLetter(text[i] & 255) || isDigit(text[i] & 255) || text[i] == '_')) {
-                i++;
-            }
-            if (i - at > 12) {
-                token = STOP;
-                return;
-            }
-            long head = packed(at, Math.min(i, at + 8));
-            int tail = (int) packed(at + 8, i);
-            word = find(head, tail);
-            if (word < 0 && takesNew) word = addWord(head, tail);
-            at = i;
-            token = word >= 0 && word < RESERVED ? TYPE + word : WORD;
-        }
-
-        private long packed(int from, int to) {
-            long n = 0;
-            for (int i = from; i < to; i++) {
-                n = n << 8 | text[i] & 255;
-            }
-            return n;
-        }
-
-        private void readNumber() {
-            int i = at;
-            long n = 0;
-            for (; i < length && isDigit(text[i] & 255); i++) {
-                if (i - at < 15) n = n * 10 + (text[i] - '0');
-            }
-            token = i - at > 15 ? STOP : NUMBER;
-            number = n;
-            at = i;
-        }
-
-        private void readText() {
-            int i = at + 1;
-            while (i < length && text[i] >= 32 && text[i] <= 126 && text[i] != '"') {
-                i++;
-            }
-            boolean whole = i < length && text[i] == '"' && i - at - 1 <= 40;
-            token = whole ? TEXT : STOP;
-            textFrom = at + 1;
-            textSize = i - at - 1;
-            at = i + 1;
-        }
-
-        /** A sign of the TEXT that was read last. */
-        int signOfText(int i) {
-            int k = textFrom + i;
-            return k >= 0 && k < length ? text[k] & 127 : 32;
-        }
-
-        private void readSign(int c) {
-            int next = at + 1 < length ? text[at + 1] & 255 : 0;
-            int pair = pairOf(c, next);
-            if (pair != 0) {
-                token = pair;
-                at += 2;
-            } else {
-                token = isSign(c) ? c : STOP;
+        private int readWord() {
+            int start = at;
+            while (at < length && (isLetter(text[at] & 255) || isDigit(text[at] & 255) || text[at] == '_')) {
                 at++;
             }
+            if (at - start > 12) return STOP;
+            int word = wordOf(start, at);
+            telling = word;
+            return word < RESERVED ? TYPE + word : WORD;
+        }
+
+        private int readNumber() {
+            int start = at;
+            while (at < length && isDigit(text[at] & 255)) {
+                if (at - start < 15) telling = telling * 10 + (text[at] - '0');
+                at++;
+            }
+            return at - start > 15 ? STOP : NUMBER;
+        }
+
+        private int readText() {
+            int start = at + 1;
+            at = start;
+            while (at < length && text[at] >= 32 && text[at] <= 126 && text[at] != '"') {
+                at++;
+            }
+            telling = at - start;
+            boolean whole = at < length && text[at] == '"' && telling <= 40;
+            at++;
+            return whole ? TEXT : STOP;
         }
 
         private static int pairOf(int c, int next) {
@@ -541,31 +566,39 @@ public final class MatchHouse {
             }
         }
 
-        /** The word's number, or - 1; then freeSlot is where it would stand. */
-        private int find(long head, int tail) {
+        // ---- words
+
+        /** The number of the word that stands there in the text; a new one is taken in. */
+        private int wordOf(int from, int to) {
+            long head = packed(from, Math.min(to, from + 8));
+            int tail = (int) packed(from + 8, to);
             long mixed = (head ^ (long) tail * 0x5851F42D4C957F2DL) * 0x9E3779B97F4A7C15L;
             int start = (int) (mixed >>> 50) & (SLOTS - 1);
             for (int i = 0; i < SLOTS; i++) {
                 int slot = (start + i) & (SLOTS - 1);
                 int id = slots[slot] - 1;
-                if (id < 0) {
-                    freeSlot = slot;
-                    return -1;
-                }
+                if (id < 0) return addWord(head, tail, slot);
                 if (heads[id] == head && tails[id] == tail) return id;
             }
-            return -1;
+            return RESERVED;
         }
 
-        private int addWord(long head, int tail) {
-            if (words >= WORDS) return -1;
-            if (find(head, tail) >= 0) return -1;
+        private long packed(int from, int to) {
+            long n = 0;
+            for (int i = from; i < to; i++) {
+                n = n << 8 | text[i] & 255;
+            }
+            return n;
+        }
+
+        private int addWord(long head, int tail, int slot) {
+            if (words >= WORDS) return RESERVED;
             int id = words;
             words++;
             heads[id] = head;
             tails[id] = tail;
-            slotOf[id] = freeSlot;
-            slots[freeSlot] = id + 1;
+            slotOf[id] = slot;
+            slots[slot] = id + 1;
             meaning[id] = 0;
             inEnum[id] = false;
             return id;
@@ -579,17 +612,13 @@ public final class MatchHouse {
             }
         }
 
-        /** Sign i of a word as if it stood at the right end of its eight or four bytes. */
-        private int signAt(int id, int i) {
-            return i < 8 ? (int) (heads[id] >>> (56 - 8 * i)) & 255 : tails[id] >>> (88 - 8 * i) & 255;
-        }
-
         /** Writes the word behind the first `size` bytes: how many there are then. */
         int writeWord(int id, byte[] bytes, int size) {
             if (id < 0 || id >= words) return size;
             int n = size;
             for (int i = 0; i < 12; i++) {
-                int sign = signAt(id, i);
+                // A word's signs stand at the right ends of its eight and four bytes.
+                int sign = i < 8 ? (int) (heads[id] >>> (56 - 8 * i)) & 255 : tails[id] >>> (88 - 8 * i) & 255;
                 if (sign != 0 && n < bytes.length) {
                     bytes[n] = (byte) sign;
                     n++;
@@ -608,8 +637,10 @@ public final class MatchHouse {
             FIELD = 9, SIGNS = 10;
         static final int HEAVIEST = 120, KEPT_MOST = 40, LOG_MOST = 300, LONGEST = 16;
         static final long FAR = 1_000_000_000_000_000L;
+        /** OMIT as a VALUE. */
+        static final long OMITTED = 1 << 4 | OMIT;
         // Slots hold a VALUE each: vars and frames of components, what is looked at, usual ways, queues, log, kept.
-        static final int VARS = 0, VARS_EACH = 72, LOOKED = 576, USUAL = 608, QUEUES = 864, LOGGED = 1248, KEPT = 1548, SLOTS = 1588;
+        static final int VARS = 0, VARS_EACH = 72, LOOKED = 576, USUAL = 608, QUEUES = 864, LOGGED = 1248, KEPT = 1548, OMITS = 1588, SLOTS = 1589;
 
         final long[] cells = new long[SLOTS * HEAVIEST];
         final int[] sizes = new int[SLOTS];
@@ -618,46 +649,50 @@ public final class MatchHouse {
         int logged;
         int sentOut;
 
+        Store() {
+            cells[OMITS * HEAVIEST] = OMITTED;
+            sizes[OMITS] = 1;
+        }
+
+        // A cell tells, from its lowest bits on: its kind (4), its VALUE's size (8), and a number, truth, length, count or word.
+
         static int kind(long cell) {
             return (int) cell & 15;
         }
 
-        static long plainCell(int kind, long n) {
-            return n << 4 | kind;
+        /** How many cells the VALUE that begins with this cell has: its WEIGHT. */
+        static int size(long cell) {
+            return (int) cell >> 4 & 255;
         }
 
-        static long wholeCell(int kind, int word, int count, int size) {
-            return (long) word << 20 | (long) size << 12 | (long) count << 4 | kind;
-        }
-
-        /** What a number, truth, TEXT (its length), WORD, component or field cell tells. */
         static long told(long cell) {
-            return cell >> 4;
+            return cell >> 12;
         }
 
-        static int count(long cell) {
-            return (int) (cell >> 4) & 255;
+        static int partsOf(long cell) {
+            return (int) (cell >> 12);
         }
 
         static int wordOf(long cell) {
-            return (int) (kind(cell) == CHOICE ? cell >> 20 : cell >> 4);
+            return (int) (cell >> 12);
         }
 
-        /** How many cells the VALUE that begins with this cell has: its WEIGHT. */
-        static int size(long cell) {
-            switch (kind(cell)) {
-                case TEXT: return 1 + (int) ((cell >> 4) + 7) / 8;
-                case RECORD: case CHOICE: case LIST: return (int) (cell >> 12) & 255;
-                default: return 1;
-            }
+        static long cell(int kind, int size, long told) {
+            return told << 12 | (long) size << 4 | kind;
         }
 
+        static long plainCell(int kind, long told) {
+            return told << 12 | 1 << 4 | kind;
+        }
+
+        static long textCell(int signs) {
+            return (long) signs << 12 | (long) (1 + (signs + 7) / 8) << 4 | TEXT;
+        }
+
+        /** Of a TEXT its signs, of a LIST its elements, of a RECORD its fields. */
         static int extent(long cell) {
-            switch (kind(cell)) {
-                case TEXT: return (int) (cell >> 4);
-                case RECORD: case LIST: return count(cell);
-                default: return 0;
-            }
+            int kind = (int) cell & 15;
+            return kind == TEXT || kind == LIST || kind == RECORD ? (int) (cell >> 12) : 0;
         }
 
         static int plain(long cell) {
@@ -667,7 +702,7 @@ public final class MatchHouse {
         }
 
         static boolean same(long[] a, int i, long[] b, int j) {
-            int size = size(a[i]);
+            int size = (int) a[i] >> 4 & 255;
             if (a[i] != b[j] || i + size > a.length || j + size > b.length) return false;
             for (int k = 1; k < size; k++) {
                 if (a[i + k] != b[j + k]) return false;
@@ -688,11 +723,11 @@ public final class MatchHouse {
 
         /** Where the VALUE of a RECORD's field stands, or - 1. */
         static int fieldAt(long[] a, int at, int word) {
-            int n = count(a[at]);
+            int n = (int) (a[at] >> 12);
             int pos = at + 1;
             for (int k = 0; k < n; k++) {
-                if (wordOf(a[pos]) == word) return pos + 1;
-                pos += 1 + size(a[pos + 1]);
+                if ((int) (a[pos] >> 12) == word) return pos + 1;
+                pos += 1 + ((int) a[pos + 1] >> 4 & 255);
             }
             return -1;
         }
@@ -701,30 +736,30 @@ public final class MatchHouse {
         static int elementAt(long[] a, int at, int i) {
             int pos = at + 1;
             for (int k = 0; k < i && k < LONGEST; k++) {
-                pos += size(a[pos]);
+                pos += (int) a[pos] >> 4 & 255;
             }
             return pos;
         }
 
         /** Puts a RECORD's fields in the order of their words. */
         static void sortFields(long[] a, int at, long[] spare) {
-            int n = count(a[at]);
+            int n = (int) (a[at] >> 12);
             int size = 0;
             int last = -1;
             for (int k = 0; k < n; k++) {
                 int least = -1;
                 int pos = at + 1;
                 for (int i = 0; i < n; i++) {
-                    int word = wordOf(a[pos]);
-                    if (word > last && (least < 0 || word < wordOf(a[least]))) least = pos;
-                    pos += 1 + size(a[pos + 1]);
+                    int word = (int) (a[pos] >> 12);
+                    if (word > last && (least < 0 || word < (int) (a[least] >> 12))) least = pos;
+                    pos += 1 + ((int) a[pos + 1] >> 4 & 255);
                 }
                 if (least < 0) return;
-                int part = 1 + size(a[least + 1]);
+                int part = 1 + ((int) a[least + 1] >> 4 & 255);
                 if (size + part > spare.length) return;
                 System.arraycopy(a, least, spare, size, part);
                 size += part;
-                last = wordOf(a[least]);
+                last = (int) (a[least] >> 12);
             }
             System.arraycopy(spare, 0, a, at + 1, size);
         }
@@ -733,6 +768,12 @@ public final class MatchHouse {
             int size = size(a[at]);
             System.arraycopy(a, at, cells, slot * HEAVIEST, size);
             sizes[slot] = size;
+        }
+
+        /** Where a slot's VALUE is; OMIT, if it has none. */
+        int placeOf(int slot) {
+            boolean has = slot >= 0 && slot < SLOTS && sizes[slot] != 0;
+            return (has ? slot : OMITS) * HEAVIEST;
         }
 
         /** As slot `to` so slot `from`. */
@@ -947,7 +988,7 @@ public final class MatchHouse {
         }
 
         private boolean holdsList(long[] a, int at, int i, int node) {
-            int n = Store.count(a[at + i]);
+            int n = Store.partsOf(a[at + i]);
             if (n < low[node] || n > high[node]) return false;
             int pos = i + 1;
             for (int k = 0; k < n; k++) {
@@ -958,7 +999,7 @@ public final class MatchHouse {
         }
 
         private boolean holdsRecord(long[] a, int at, int i, int node) {
-            int n = Store.count(a[at + i]);
+            int n = Store.partsOf(a[at + i]);
             int needed = 0;
             int f = first[node];
             for (int k = 0; k < link[node] && f >= 0; k++) {
@@ -1271,19 +1312,17 @@ public final class MatchHouse {
         int stopped;
         /** Whether = ( ) go into the pool: the module's templates are being settled. */
         boolean settling;
-        // What an exp sees of the run.
-        int me;
-        int verdict;
+        // What an exp sees of the run: its COMPONENT, those that have ENDED by bits, the TIME, the slots of its places.
+        Part part;
         int endedParts;
-        int activeTimers;
         long now;
-        int own;
         int frame;
         private final Store store;
         Templates templates;
 
         Code(Store store) {
             this.store = store;
+            part = new Part(0);
         }
 
         int emit(int operation, int argument) {
@@ -1306,7 +1345,7 @@ public final class MatchHouse {
             int cells = 1 + (signs + 7) / 8;
             if (pooled + cells > POOL) return 0;
             int start = pooled;
-            pool[start] = Store.plainCell(Store.TEXT, signs);
+            pool[start] = Store.textCell(signs);
             pooled += cells;
             return start;
         }
@@ -1334,7 +1373,7 @@ public final class MatchHouse {
 
         /** The first cell of VALUE i from below. */
         long cellOf(int i) {
-            return i >= 0 && i < depth ? stack[at[i]] : Store.OMIT;
+            return i >= 0 && i < depth ? stack[at[i]] : Store.OMITTED;
         }
 
         /** Works out the operations from `start` to the next END: 0 or the ERROR. */
@@ -1348,6 +1387,7 @@ public final class MatchHouse {
                 else if (o <= FIELD) unary(o, arg[i]);
                 else if (o <= UNEQUAL) binary(o);
                 else if (o <= OR) i = Math.max(i, jump(o, i));
+                else if (o == MET) hold(arg[i], arg[i + 1]);
                 else gather(o, i);
             }
             return error;
@@ -1357,12 +1397,12 @@ public final class MatchHouse {
             switch (o) {
                 case CONST: pushFrom(pool, a); break;
                 case WORD: pushCell(Store.plainCell(Store.WORD, a)); break;
-                case LOCAL: pushSlot(frame + a); break;
-                case OWN: pushSlot(own + a); break;
-                case ME: pushCell(Store.plainCell(Store.COMPONENT, me)); break;
+                case LOCAL: pushFrom(store.cells, store.placeOf(frame + a)); break;
+                case OWN: pushFrom(store.cells, store.placeOf(part.varSlot(a))); break;
+                case ME: pushCell(Store.plainCell(Store.COMPONENT, part.number)); break;
                 case NOW: pushCell(Store.plainCell(Store.NUMBER, now)); break;
-                case VERDICT: pushCell(Store.plainCell(Store.NUMBER, verdict)); break;
-                default: pushCell(truth((activeTimers >> a & 1) != 0)); break;
+                case VERDICT: pushCell(Store.plainCell(Store.NUMBER, part.judgement)); break;
+                default: pushCell(truth(a >= 0 && a < Plan.TIMERS && part.due[a] > now)); break;
             }
         }
 
@@ -1391,11 +1431,6 @@ public final class MatchHouse {
             depth++;
         }
 
-        private void pushSlot(int slot) {
-            if (slot < 0 || slot >= Store.SLOTS || store.sizes[slot] == 0) pushCell(Store.OMIT);
-            else pushFrom(store.cells, slot * Store.HEAVIEST);
-        }
-
         private void replaceTop(long cell) {
             stack[at[depth - 1]] = cell;
             at[depth] = at[depth - 1] + 1;
@@ -1403,13 +1438,11 @@ public final class MatchHouse {
 
         /** The top VALUE becomes a part of itself, or OMIT (from < 0). */
         private void topBecomes(int from) {
-            if (from < 0) {
-                replaceTop(Store.OMIT);
-                return;
-            }
-            int size = Store.size(stack[from]);
-            System.arraycopy(stack, from, stack, at[depth - 1], size);
-            at[depth] = at[depth - 1] + size;
+            int to = at[depth - 1];
+            int size = from < 0 ? 1 : (int) stack[from] >> 4 & 255;
+            if (from < 0) stack[to] = Store.OMITTED;
+            else System.arraycopy(stack, from, stack, to, size);
+            at[depth] = to + size;
         }
 
         private void unary(int o, int a) {
@@ -1453,7 +1486,7 @@ public final class MatchHouse {
             else if (size + 1 > Store.HEAVIEST) error = 3;
             if (error != 0 || !hasRoom(1)) return;
             System.arraycopy(stack, from, stack, from + 1, size);
-            stack[from] = Store.wholeCell(Store.CHOICE, word, 1, size + 1);
+            stack[from] = Store.cell(Store.CHOICE, size + 1, word);
             at[depth] = from + size + 1;
         }
 
@@ -1508,7 +1541,7 @@ public final class MatchHouse {
 
         private void index(long a, long b) {
             if (Store.kind(a) != Store.LIST || Store.kind(b) != Store.NUMBER) error = 1;
-            else if (Store.told(b) < 0 || Store.told(b) >= Store.count(a)) error = 2;
+            else if (Store.told(b) < 0 || Store.told(b) >= Store.partsOf(a)) error = 2;
             if (error != 0) return;
             depth--;
             topBecomes(Store.elementAt(stack, at[depth - 1], (int) Store.told(b)));
@@ -1526,11 +1559,11 @@ public final class MatchHouse {
             depth--;
             if (kind == Store.LIST) {
                 System.arraycopy(stack, other + 1, stack, other, Store.size(b) - 1);
-                stack[one] = Store.wholeCell(Store.LIST, 0, count, size);
+                stack[one] = Store.cell(Store.LIST, size, count);
                 at[depth] = one + size;
                 return;
             }
-            whole[0] = Store.plainCell(Store.TEXT, count);
+            whole[0] = Store.textCell(count);
             for (int i = 0; i < count; i++) {
                 int first = Store.extent(a);
                 Store.putSign(whole, 0, i, i < first ? Store.sign(stack, one, i) : Store.sign(stack, other, i - first));
@@ -1565,7 +1598,6 @@ public final class MatchHouse {
                 case CHECK:
                     if (!settling) error = templates.wrongOf(arg[i]);
                     break;
-                case MET: hold(arg[i], arg[i + 1]); break;
                 default: break;
             }
         }
@@ -1580,7 +1612,7 @@ public final class MatchHouse {
             if (error == 0 && size > Store.HEAVIEST) error = 3;
             if (error != 0) return;
             System.arraycopy(stack, from, stack, from + 1, size - 1);
-            stack[from] = Store.wholeCell(Store.LIST, 0, n, size);
+            stack[from] = Store.cell(Store.LIST, size, n);
             depth -= n;
             at[depth + 1] = from + size;
             depth++;
@@ -1603,7 +1635,7 @@ public final class MatchHouse {
                 return;
             }
             int end = 1;
-            whole[0] = Store.wholeCell(Store.RECORD, 0, fields, size);
+            whole[0] = Store.cell(Store.RECORD, size, fields);
             for (int i = base; i < depth; i++) {
                 if (Store.kind(stack[at[i]]) != Store.OMIT) {
                     whole[end] = Store.plainCell(Store.FIELD, arg[names + i - base]);
@@ -1612,8 +1644,9 @@ public final class MatchHouse {
                 }
             }
             Store.sortFields(whole, 0, spare);
-            depth = base;
-            pushFrom(whole, 0);
+            System.arraycopy(whole, 0, stack, at[base], size);
+            at[base + 1] = at[base] + size;
+            depth = base + 1;
         }
 
         private void keepSame(int node) {
@@ -1646,7 +1679,7 @@ public final class MatchHouse {
         int assignPart(int from, int to, int slot) {
             error = 0;
             trailed = 0;
-            whole[0] = Store.OMIT;
+            whole[0] = Store.OMITTED;
             if (store.sizes[slot] > 0) System.arraycopy(store.cells, slot * Store.HEAVIEST, whole, 0, store.sizes[slot]);
             int pos = 0;
             int used = 0;
@@ -1663,7 +1696,7 @@ public final class MatchHouse {
 
         /** Where the part stands; - 1: it is OMIT. */
         private int stepInto(int o, long n, int pos) {
-            long cell = pos < 0 ? Store.OMIT : whole[pos];
+            long cell = pos < 0 ? Store.OMITTED : whole[pos];
             int kind = Store.kind(cell);
             if (pos >= 0 && trailed < trail.length) {
                 trail[trailed] = pos;
@@ -1672,19 +1705,19 @@ public final class MatchHouse {
             if (o == STEP_FIELD && kind == Store.RECORD) return Store.fieldAt(whole, pos, (int) n);
             if (o == STEP_FIELD && kind == Store.CHOICE) return Store.wordOf(cell) == n ? pos + 1 : -1;
             if (o == STEP_FIELD || kind != Store.LIST) error = 1;
-            else if (n < 0 || n >= Store.count(cell)) error = 2;
+            else if (n < 0 || n >= Store.partsOf(cell)) error = 2;
             return error != 0 ? -1 : Store.elementAt(whole, pos, (int) n);
         }
 
         private void putPart(int o, long n, int pos) {
-            long cell = pos < 0 ? Store.OMIT : whole[pos];
+            long cell = pos < 0 ? Store.OMITTED : whole[pos];
             int kind = Store.kind(cell);
             boolean omit = Store.kind(top()) == Store.OMIT;
             if (o == STEP_FIELD && kind == Store.RECORD) {
                 putField((int) n, pos, omit);
             } else if (o == STEP_FIELD && kind == Store.CHOICE && !omit) {
                 splice(pos, pos + 1, pos + Store.size(cell), 0, -1);
-                if (error == 0) whole[pos] = Store.wholeCell(Store.CHOICE, (int) n, 1, Store.size(whole[pos]));
+                if (error == 0) whole[pos] = Store.cell(Store.CHOICE, Store.size(whole[pos]), (int) n);
             } else if (o == STEP_INDEX && kind == Store.LIST && !omit) {
                 putElement(n, pos);
             } else {
@@ -1704,7 +1737,7 @@ public final class MatchHouse {
                 return;
             }
             if (omit) return;
-            int n = Store.count(whole[pos]);
+            int n = Store.partsOf(whole[pos]);
             int spot = pos + 1;
             for (int k = 0; k < n && Store.wordOf(whole[spot]) < word; k++) {
                 spot += 1 + Store.size(whole[spot + 1]);
@@ -1713,7 +1746,7 @@ public final class MatchHouse {
         }
 
         private void putElement(long n, int pos) {
-            int count = Store.count(whole[pos]);
+            int count = Store.partsOf(whole[pos]);
             if (n < 0 || n > count) error = 2;
             else if (n == Store.LONGEST) error = 3;
             if (error != 0) return;
@@ -1728,7 +1761,7 @@ public final class MatchHouse {
          */
         private void splice(int box, int from, int to, int more, int word) {
             int head = word >= 0 ? 1 : 0;
-            int size = word == -2 ? 0 : at[depth] - topAt();
+            int size = word == -2 ? 0 : at[depth] - at[depth - 1];
             int old = Store.size(whole[0]);
             int grown = head + size - (to - from);
             if (old + grown > Store.HEAVIEST) {
@@ -1737,11 +1770,11 @@ public final class MatchHouse {
             }
             System.arraycopy(whole, to, spare, 0, old - to);
             if (head == 1) whole[from] = Store.plainCell(Store.FIELD, word);
-            if (size > 0) System.arraycopy(stack, topAt(), whole, from + head, size);
+            if (size > 0) System.arraycopy(stack, at[depth - 1], whole, from + head, size);
             System.arraycopy(spare, 0, whole, from + head + size, old - to);
-            whole[box] += ((long) grown << 12) + ((long) more << 4);
+            whole[box] += ((long) grown << 4) + ((long) more << 12);
             for (int i = 0; i < trailed; i++) {
-                whole[trail[i]] += (long) grown << 12;
+                whole[trail[i]] += (long) grown << 4;
             }
         }
     }
@@ -1899,7 +1932,7 @@ public final class MatchHouse {
         private boolean matches(int t, int v, int deep) {
             if (deep > LIMIT) return false;
             if (v < 0 && ifPresent[t]) return true;
-            if (span[t] != 0 && !hasLength(span[t], v)) return false;
+            if (span[t] != 0 && (v < 0 || !hasLength(span[t], cells[base + v]))) return false;
             switch (kind[t]) {
                 case ANY: return v >= 0;
                 case STAR: return true;
@@ -1918,7 +1951,7 @@ public final class MatchHouse {
                 case SUBSET: case SUPERSET:
                     if (v < 0 || Store.kind(cells[base + v]) != Store.LIST) return false;
                     int parts = relate(t, v, deep);
-                    return paired(deep, parts, 0xFFFF) == (kind[t] == SUBSET ? Store.count(cells[base + v]) : parts);
+                    return paired(deep, parts, 0xFFFF) == (kind[t] == SUBSET ? Store.partsOf(cells[base + v]) : parts);
                 case NOT: return v >= 0 && !matchesSome(t, v, deep, true);
                 case BOTH: return !matchesSome(t, v, deep, false);
                 case SOME: return matchesSome(t, v, deep, true);
@@ -1926,11 +1959,9 @@ public final class MatchHouse {
             }
         }
 
-        private boolean hasLength(int bounds, int v) {
-            if (v < 0) return false;
-            long cell = cells[base + v];
+        private static boolean hasLength(int bounds, long cell) {
             int kind = Store.kind(cell);
-            int n = Store.extent(cell);
+            long n = Store.told(cell);
             return (kind == Store.TEXT || kind == Store.LIST) && n >= (bounds >> 8 & 255) && n <= (bounds >> 16 & 255);
         }
 
@@ -1972,12 +2003,12 @@ public final class MatchHouse {
                 if (!matches(first[field], at < 0 ? -1 : at - base, deep + 1)) return false;
                 field = next[field];
             }
-            return there == Store.count(cells[base + v]);
+            return there == Store.partsOf(cells[base + v]);
         }
 
         /** Bit n of `reach`: the pieces so far can take the first n elements. */
         private boolean matchesRow(int t, int v, int deep) {
-            int n = Store.count(cells[base + v]);
+            int n = Store.partsOf(cells[base + v]);
             int reach = 1;
             int piece = first[t];
             for (int i = 0; i < ROWS && piece >= 0 && reach != 0; i++) {
@@ -2005,7 +2036,7 @@ public final class MatchHouse {
         }
 
         private int behindPerm(int t, int v, int reach, int deep) {
-            int n = Store.count(cells[base + v]);
+            int n = Store.partsOf(cells[base + v]);
             int templs = relate(t, v, deep);
             int behind = 0;
             for (int e = 0; e + templs <= n; e++) {
@@ -2017,7 +2048,7 @@ public final class MatchHouse {
 
         /** Writes down, by bits, which elements of the LIST at v match each part of t: how many parts there are. */
         private int relate(int t, int v, int deep) {
-            int n = Store.count(cells[base + v]);
+            int n = Store.partsOf(cells[base + v]);
             int parts = 0;
             int part = first[t];
             for (; parts < ROWS && part >= 0; parts++) {
@@ -2116,7 +2147,7 @@ public final class MatchHouse {
                     step(1_000 + word[t] - Lexer.RESERVED);
                     v++;
                     part = first[t];
-                } else if (kind[t] == ROW && sort == Store.LIST && isPlainRow(t, Store.count(cells[base + v]))) {
+                } else if (kind[t] == ROW && sort == Store.LIST && isPlainRow(t, Store.partsOf(cells[base + v]))) {
                     int e = firstWrongElement(t, v);
                     if (e >= 0) {
                         step(e);
@@ -2146,7 +2177,7 @@ public final class MatchHouse {
         }
 
         private void explainUntold(int t, int v) {
-            int n = Store.count(cells[base + v]);
+            int n = Store.partsOf(cells[base + v]);
             int pos = base + v + 1;
             for (int k = 0; k < n; k++) {
                 int name = Store.wordOf(cells[pos]);
@@ -2285,7 +2316,9 @@ public final class MatchHouse {
         }
 
         boolean hasOwn(int kind, int word) {
-            return portOf(kind, word) >= 0 || timerOf(kind, word) >= 0 || varOf(kind, word) >= 0;
+            return kind >= 0 && (find(portWord, kind * PORTS, portCount[kind], word) >= 0
+                || find(timerWord, kind * TIMERS, timerCount[kind], word) >= 0
+                || find(varWord, kind * PLACES, varCount[kind], word) >= 0);
         }
 
         boolean hasPort(int word) {
@@ -2467,7 +2500,7 @@ public final class MatchHouse {
 
     /** Reads a module, or a single exp, from the first token to the last, up to the first fault. */
     static final class Reader {
-        private static final int NODES = 3_000, DEEP = 16, ROW = 12, MANY = 16, LOOPS = Lexer.MOST + 2;
+        private static final int NODES = 3_000, DEEP = 16, ROW = 12, MANY = 16, LOOPS = Lexer.MOST + 2, WHOLE = -1;
 
         private final Lexer lexer;
         private final Types types;
@@ -2483,8 +2516,6 @@ public final class MatchHouse {
         private int open;
         private int nodes;
         int moduleNodes;
-        int fault;
-        int place;
         /** The function or the like that is read, or - 1; the component whose own is read, or - 1. */
         private int unit;
         private int kind;
@@ -2496,9 +2527,6 @@ public final class MatchHouse {
         private int known;
         /** How many = ( ) the templ that is read has. */
         private int sames;
-        private int knownCode;
-        private int knownPool;
-        private int knownNodes;
 
         Reader(Links links) {
             this.links = links;
@@ -2518,35 +2546,42 @@ public final class MatchHouse {
             code.pooled = 0;
             known = Integer.MAX_VALUE;
             startReading();
-            for (int k = 0; k < LOOPS && fault == 0 && lexer.token != Lexer.END; k++) readItem();
+            for (int k = 0; k < LOOPS && lexer.fault == 0 && lexer.token != Lexer.END; k++) {
+                switch (lexer.token) {
+                    case Lexer.TYPE: readTypeItem(); break;
+                    case Lexer.TEMPLATE: readTemplateItem(); break;
+                    case Lexer.COMPONENT: readComponentItem(); break;
+                    case Lexer.FUNCTION: readUnitItem(Plan.FUNCTION); break;
+                    case Lexer.ALTSTEP: readUnitItem(Plan.ALTSTEP); break;
+                    case Lexer.CASE: readUnitItem(Plan.CASE); break;
+                    default: lexer.fail(2); break;
+                }
+            }
             finishReading();
             moduleNodes = nodes;
         }
 
-        /** The first operation of the exp; forgetValue() is due behind it. */
-        int readValue() {
+        /** Reads an exp and works it out: 0 or the ERROR; the VALUE is on the stack then. */
+        int workValue() {
+            int firstCode = code.count;
+            int firstPooled = code.pooled;
+            int firstNode = templates.nodes;
             known = lexer.words;
-            knownCode = code.count;
-            knownPool = code.pooled;
-            knownNodes = templates.nodes;
             startReading();
             bare = true;
-            readWholeExp();
-            if (lexer.token != Lexer.END) fail(2);
+            readExp(WHOLE);
+            if (lexer.token != Lexer.END) lexer.fail(2);
             finishReading();
-            return knownCode;
-        }
-
-        void forgetValue() {
+            code.clear();
+            int error = lexer.fault == 0 ? code.work(firstCode) : 0;
             lexer.forget(known);
-            code.count = knownCode;
-            code.pooled = knownPool;
-            templates.nodes = knownNodes;
+            code.count = firstCode;
+            code.pooled = firstPooled;
+            templates.nodes = firstNode;
+            return error;
         }
 
         private void startReading() {
-            fault = 0;
-            place = 0;
             nodes = 0;
             waits = 0;
             open = 0;
@@ -2555,49 +2590,23 @@ public final class MatchHouse {
             above = -1;
             bare = false;
             links.clear();
-            lexer.takesNew = true;
-            lexer.at = 0;
-            advance();
+            lexer.scan();
         }
 
+        /** What reading did not fault is looked at as a whole. */
         private void finishReading() {
             lexer.length = 0;
-            if (fault != 0) return;
+            if (lexer.fault != 0) return;
             links.settleNames();
             if (!bare) links.settleTold();
-            fault = links.fault;
-            place = links.place;
+            lexer.fault = links.fault;
+            lexer.faultPlace = links.place;
         }
 
-        // ---- tokens
-
-        /** The first fault stays; behind it no token is any more. */
-        private void fail(int which) {
-            if (fault != 0) return;
-            fault = which;
-            place = lexer.place;
-            lexer.token = Lexer.STOP;
-        }
-
-        private void advance() {
-            if (fault != 0) return;
-            lexer.toNext();
-            if (lexer.token == Lexer.STOP) fail(1);
-        }
-
-        private void need(int token) {
-            if (lexer.token == token) advance();
-            else fail(2);
-        }
-
-        private boolean take(int token) {
-            if (lexer.token != token) return false;
-            advance();
-            return true;
-        }
+        // ---- items
 
         private void node() {
-            if (nodes >= NODES) fail(5);
+            if (nodes >= NODES) lexer.fail(5);
             else nodes++;
         }
 
@@ -2605,51 +2614,37 @@ public final class MatchHouse {
             return unit >= 0 ? unit : kind >= 0 ? -2 - kind : -1;
         }
 
-        // ---- items
-
-        private void readItem() {
-            switch (lexer.token) {
-                case Lexer.TYPE: readTypeItem(); break;
-                case Lexer.TEMPLATE: readTemplateItem(); break;
-                case Lexer.COMPONENT: readComponentItem(); break;
-                case Lexer.FUNCTION: readUnitItem(Plan.FUNCTION); break;
-                case Lexer.ALTSTEP: readUnitItem(Plan.ALTSTEP); break;
-                case Lexer.CASE: readUnitItem(Plan.CASE); break;
-                default: fail(2); break;
-            }
-        }
-
         /** Takes a name of the module: whether it may be told. */
         private boolean takeName(int family, int many, int most) {
-            if (lexer.token != Lexer.WORD) fail(2);
-            else if (lexer.meaning[lexer.word] != 0) fail(3);
-            else if (many >= most) fail(5);
-            if (fault != 0) return false;
-            lexer.meaning[lexer.word] = 1 + 100 * family + many;
+            if (lexer.token != Lexer.WORD) lexer.fail(2);
+            else if (lexer.meaning[lexer.word()] != 0) lexer.fail(3);
+            else if (many >= most) lexer.fail(5);
+            if (lexer.fault != 0) return false;
+            lexer.meaning[lexer.word()] = 1 + 100 * family + many;
             return true;
         }
 
         private void readTypeItem() {
-            advance();
+            lexer.advance();
             int type = types.told;
             if (!takeName(0, type, Types.TYPES)) return;
             types.places[type] = lexer.place;
             types.told++;
-            advance();
-            need('=');
+            lexer.advance();
+            lexer.need('=');
             types.roots[type] = readType(0);
-            need(';');
+            lexer.need(';');
         }
 
         private void readTemplateItem() {
-            advance();
+            lexer.advance();
             int template = templates.told;
             if (!takeName(1, template, Templates.TEMPLATES)) return;
             int[] row = templates.table[template];
             row[Templates.PLACE] = lexer.place;
             templates.told++;
-            advance();
-            need('=');
+            lexer.advance();
+            lexer.need('=');
             bare = true;
             row[Templates.START] = code.count;
             row[Templates.FROM] = templates.nodes;
@@ -2657,74 +2652,74 @@ public final class MatchHouse {
             row[Templates.BEHIND] = templates.nodes;
             code.emit(Code.END, 0);
             bare = false;
-            need(';');
+            lexer.need(';');
         }
 
         private void readComponentItem() {
-            advance();
+            lexer.advance();
             if (!takeName(2, plan.kinds, Plan.KINDS)) return;
             kind = plan.kinds;
             plan.addKind(kind);
-            advance();
-            need('{');
-            for (int k = 0; k < LOOPS && fault == 0 && lexer.token != '}'; k++) readOwn();
-            need('}');
+            lexer.advance();
+            lexer.need('{');
+            for (int k = 0; k < LOOPS && lexer.fault == 0 && lexer.token != '}'; k++) readOwn();
+            lexer.need('}');
             kind = -1;
         }
 
         private void readOwn() {
             int sort = lexer.token;
-            if (sort != Lexer.PORT && sort != Lexer.TIMER && sort != Lexer.VAR) fail(2);
-            advance();
+            if (sort != Lexer.PORT && sort != Lexer.TIMER && sort != Lexer.VAR) lexer.fail(2);
+            lexer.advance();
             int[] counts = sort == Lexer.PORT ? plan.portCount : sort == Lexer.TIMER ? plan.timerCount : plan.varCount;
             int most = sort == Lexer.PORT ? Plan.PORTS : sort == Lexer.TIMER ? Plan.TIMERS : Plan.PLACES;
             int[] words = sort == Lexer.PORT ? plan.portWord : sort == Lexer.TIMER ? plan.timerWord : plan.varWord;
-            if (lexer.token != Lexer.WORD) fail(2);
-            else if (plan.hasOwn(kind, lexer.word)) fail(3);
-            else if (counts[kind] >= most) fail(5);
-            if (fault != 0) return;
+            if (lexer.token != Lexer.WORD) lexer.fail(2);
+            else if (plan.hasOwn(kind, lexer.word())) lexer.fail(3);
+            else if (counts[kind] >= most) lexer.fail(5);
+            if (lexer.fault != 0) return;
             int spot = kind * most + counts[kind];
-            words[spot] = lexer.word;
-            advance();
+            words[spot] = lexer.word();
+            lexer.advance();
             if (sort == Lexer.VAR) {
                 plan.varType[spot] = -1;
                 readVarType(Links.VAR_TYPE, spot);
-                need(Lexer.ASSIGN);
-                plan.varCode[spot] = readWholeExp();
+                lexer.need(Lexer.ASSIGN);
+                plan.varCode[spot] = readExp(WHOLE);
             }
-            need(';');
+            lexer.need(';');
             // A var is told behind its exp.
             counts[kind]++;
         }
 
         private void readVarType(int sort, int spot) {
-            if (!take(':')) return;
+            if (!lexer.take(':')) return;
             link(sort, spot, 0);
         }
 
         /** The token is to be a WORD, and a name of a sort. */
         private void link(int sort, int spot, int extra) {
             if (lexer.token != Lexer.WORD) {
-                fail(2);
+                lexer.fail(2);
                 return;
             }
-            links.add(sort, lexer.place, lexer.word, home(), spot, extra);
-            advance();
+            links.add(sort, lexer.place, lexer.word(), home(), spot, extra);
+            lexer.advance();
         }
 
         private void readUnitItem(int sort) {
-            advance();
+            lexer.advance();
             if (!takeName(3, plan.units, Plan.UNITS)) return;
             unit = plan.units;
             plan.addUnit(unit, sort);
-            advance();
-            need(Lexer.ON);
-            int told = lexer.token == Lexer.WORD ? lexer.meaning[lexer.word] - 1 : -1;
+            lexer.advance();
+            lexer.need(Lexer.ON);
+            int told = lexer.token == Lexer.WORD ? lexer.meaning[lexer.word()] - 1 : -1;
             above = told >= 200 && told < 300 ? told - 200 : -1;
             link(Links.UNIT_KIND, unit, 0);
-            need('(');
+            lexer.need('(');
             if (sort != Plan.CASE && lexer.token != ')') readParameters();
-            need(')');
+            lexer.need(')');
             plan.unitFirst[unit] = sort == Plan.ALTSTEP ? readAlts(0, -1) : readBlock(0, -1);
             unit = -1;
             above = -1;
@@ -2735,20 +2730,20 @@ public final class MatchHouse {
                 if (takePlace() < 0) return;
                 plan.parameters[unit]++;
                 plan.places[unit]++;
-                if (!take(',')) return;
+                if (!lexer.take(',')) return;
             }
         }
 
         /** The place of a parameter or var whose name is the token, or - 1; it is not told yet. */
         private int takePlace() {
-            if (lexer.token != Lexer.WORD) fail(2);
-            else if (plan.placeOf(unit, lexer.word) >= 0 || plan.hasOwn(above, lexer.word)) fail(3);
-            else if (plan.places[unit] >= Plan.PLACES) fail(5);
-            if (fault != 0) return -1;
+            if (lexer.token != Lexer.WORD) lexer.fail(2);
+            else if (plan.placeOf(unit, lexer.word()) >= 0 || plan.hasOwn(above, lexer.word())) lexer.fail(3);
+            else if (plan.places[unit] >= Plan.PLACES) lexer.fail(5);
+            if (lexer.fault != 0) return -1;
             int spot = unit * Plan.PLACES + plan.places[unit];
-            plan.placeWord[spot] = lexer.word;
+            plan.placeWord[spot] = lexer.word();
             plan.placeType[spot] = -1;
-            advance();
+            lexer.advance();
             return plan.places[unit];
         }
 
@@ -2759,17 +2754,17 @@ public final class MatchHouse {
         }
 
         private int readType(int deep) {
-            if (!beginsType(lexer.token)) fail(2);
-            if (deep > DEEP) fail(5);
+            if (!beginsType(lexer.token)) lexer.fail(2);
+            if (deep > DEEP) lexer.fail(5);
             node();
-            if (fault != 0) return 0;
+            if (lexer.fault != 0) return 0;
             int token = lexer.token;
             int t = types.add(token == Lexer.WORD ? Types.NAME : Types.INT + token - Lexer.INT);
             if (token == Lexer.WORD) {
                 link(Links.TYPE, t, 0);
                 return t;
             }
-            advance();
+            lexer.advance();
             switch (token) {
                 case Lexer.INT: readInt(t); break;
                 case Lexer.TEXTS:
@@ -2782,7 +2777,7 @@ public final class MatchHouse {
                 case Lexer.LIST:
                     types.high[t] = Store.LONGEST;
                     if (lexer.token == '(') setSpan(t, readSpan(Store.LONGEST));
-                    need(Lexer.OF);
+                    lexer.need(Lexer.OF);
                     types.first[t] = readType(deep + 1);
                     break;
                 default: break;
@@ -2797,97 +2792,98 @@ public final class MatchHouse {
 
         /** A span as it stands with 'length': 1, its least and greatest by bytes. */
         private int readSpan(int most) {
-            need('(');
+            lexer.need('(');
             int least = readBound(0, most);
-            int greatest = take(Lexer.DOTS) ? readBound(least, most) : least;
-            need(')');
+            int greatest = lexer.take(Lexer.DOTS) ? readBound(least, most) : least;
+            lexer.need(')');
             return 1 | least << 8 | greatest << 16;
         }
 
         private int readBound(int least, int most) {
-            long n = lexer.number;
-            if (lexer.token != Lexer.NUMBER) fail(2);
-            else if (n < least || n > most) fail(5);
-            if (fault != 0) return 0;
-            advance();
+            long n = lexer.telling;
+            if (lexer.token != Lexer.NUMBER) lexer.fail(2);
+            else if (n < least || n > most) lexer.fail(5);
+            if (lexer.fault != 0) return 0;
+            lexer.advance();
             return (int) n;
         }
 
         private long readNumber(long least) {
-            boolean minus = take('-');
-            long n = minus ? -lexer.number : lexer.number;
-            if (lexer.token != Lexer.NUMBER) fail(2);
-            else if (n < least) fail(5);
-            if (fault != 0) return 0;
-            advance();
+            boolean minus = lexer.token == '-';
+            if (minus) lexer.advance();
+            long n = minus ? -lexer.telling : lexer.telling;
+            if (lexer.token != Lexer.NUMBER) lexer.fail(2);
+            else if (n < least) lexer.fail(5);
+            if (lexer.fault != 0) return 0;
+            lexer.advance();
             return n;
         }
 
         private void readInt(int t) {
             types.low[t] = -Store.FAR;
             types.high[t] = Store.FAR;
-            if (!take('(')) return;
+            if (!lexer.take('(')) return;
             int last = -1;
             for (int k = 0; k <= 6; k++) {
-                if (lexer.token != '-' && lexer.token != Lexer.NUMBER) fail(2);
-                if (k == 6) fail(5);
+                if (lexer.token != '-' && lexer.token != Lexer.NUMBER) lexer.fail(2);
+                if (k == 6) lexer.fail(5);
                 node();
-                if (fault != 0) return;
+                if (lexer.fault != 0) return;
                 int r = types.add(Types.RANGE);
                 types.low[r] = readNumber(-Store.FAR);
-                types.high[r] = take(Lexer.DOTS) ? readNumber(types.low[r]) : types.low[r];
+                types.high[r] = lexer.take(Lexer.DOTS) ? readNumber(types.low[r]) : types.low[r];
                 if (k == 0) types.first[t] = r;
                 else types.next[last] = r;
                 types.low[t] = k == 0 ? types.low[r] : Math.min(types.low[t], types.low[r]);
                 types.high[t] = k == 0 ? types.high[r] : Math.max(types.high[t], types.high[r]);
                 types.link[t]++;
                 last = r;
-                if (!take(',')) break;
+                if (!lexer.take(',')) break;
             }
-            need(')');
+            lexer.need(')');
         }
 
         private void readEnum(int t) {
-            need('{');
+            lexer.need('{');
             types.first[t] = types.memberCount;
             for (int k = 0; k <= MANY; k++) {
-                if (lexer.token != Lexer.WORD) fail(2);
-                else if (types.memberOf(t, lexer.word) >= 0) fail(3);
-                else if (k == MANY) fail(5);
-                if (fault != 0) return;
-                lexer.inEnum[lexer.word] = true;
-                types.members[types.memberCount] = lexer.word;
+                if (lexer.token != Lexer.WORD) lexer.fail(2);
+                else if (types.memberOf(t, lexer.word()) >= 0) lexer.fail(3);
+                else if (k == MANY) lexer.fail(5);
+                if (lexer.fault != 0) return;
+                lexer.inEnum[lexer.word()] = true;
+                types.members[types.memberCount] = lexer.word();
                 types.memberCount++;
                 types.link[t]++;
-                advance();
-                if (!take(',')) break;
+                lexer.advance();
+                if (!lexer.take(',')) break;
             }
-            need('}');
+            lexer.need('}');
         }
 
         private void readFields(int t, int deep, boolean isRecord) {
-            need('{');
-            if (isRecord && take('}')) return;
+            lexer.need('{');
+            if (isRecord && lexer.take('}')) return;
             int last = -1;
             for (int k = 0; k <= MANY; k++) {
-                if (lexer.token != Lexer.WORD) fail(2);
-                else if (types.fieldOf(t, lexer.word) >= 0) fail(3);
-                else if (k == MANY) fail(5);
+                if (lexer.token != Lexer.WORD) lexer.fail(2);
+                else if (types.fieldOf(t, lexer.word()) >= 0) lexer.fail(3);
+                else if (k == MANY) lexer.fail(5);
                 node();
-                if (fault != 0) return;
+                if (lexer.fault != 0) return;
                 int f = types.add(Types.FIELD);
-                types.word[f] = lexer.word;
-                advance();
-                need(':');
+                types.word[f] = lexer.word();
+                lexer.advance();
+                lexer.need(':');
                 types.first[f] = readType(deep + 1);
-                if (isRecord && take(Lexer.OPTIONAL)) types.link[f] = 1;
+                if (isRecord && lexer.take(Lexer.OPTIONAL)) types.link[f] = 1;
                 if (k == 0) types.first[t] = f;
                 else types.next[last] = f;
                 types.link[t]++;
                 last = f;
-                if (!take(',')) break;
+                if (!lexer.take(',')) break;
             }
-            need('}');
+            lexer.need('}');
         }
 
         // ---- templates
@@ -2904,14 +2900,14 @@ public final class MatchHouse {
         }
 
         private int readTempl(int deep, int level) {
-            if (!beginsTempl(lexer.token)) fail(2);
-            if (deep > DEEP) fail(5);
+            if (!beginsTempl(lexer.token)) lexer.fail(2);
+            if (deep > DEEP) lexer.fail(5);
             node();
-            if (fault != 0) return 0;
+            if (lexer.fault != 0) return 0;
             int t = templates.add(level);
             readTone(t, deep, level);
-            if (take(Lexer.LENGTH)) templates.span[t] = readSpan(40);
-            if (take(Lexer.IFPRESENT)) templates.ifPresent[t] = true;
+            if (lexer.take(Lexer.LENGTH)) templates.span[t] = readSpan(40);
+            if (lexer.take(Lexer.IFPRESENT)) templates.ifPresent[t] = true;
             return t;
         }
 
@@ -2921,11 +2917,11 @@ public final class MatchHouse {
                 case '-': case Lexer.NUMBER:
                     templates.kind[t] = Templates.RANGE;
                     templates.low[t] = readNumber(-Store.FAR);
-                    templates.high[t] = take(Lexer.DOTS) ? readNumber(templates.low[t]) : templates.low[t];
+                    templates.high[t] = lexer.take(Lexer.DOTS) ? readNumber(templates.low[t]) : templates.low[t];
                     return;
                 case Lexer.WORD:
                     templates.kind[t] = Templates.WORD;
-                    templates.word[t] = lexer.word;
+                    templates.word[t] = lexer.word();
                     code.emit(Code.CHECK, t);
                     link(Links.TEMPL, t, 0);
                     return;
@@ -2937,7 +2933,7 @@ public final class MatchHouse {
                 case '*': templates.kind[t] = Templates.STAR; break;
                 default: break;
             }
-            advance();
+            lexer.advance();
             switch (token) {
                 case '{': readTemplFields(t, deep, level); break;
                 case '@': readTag(t, deep, level); break;
@@ -2951,7 +2947,7 @@ public final class MatchHouse {
                 case Lexer.PATTERN:
                     if (lexer.token == Lexer.TEXT) setLiteral(t, poolText());
                     templates.kind[t] = Templates.PATTERN;
-                    need(Lexer.TEXT);
+                    lexer.need(Lexer.TEXT);
                     break;
                 default: break;
             }
@@ -2964,8 +2960,8 @@ public final class MatchHouse {
 
         /** The TEXT that is the token, in the pool. */
         private int poolText() {
-            int spot = code.poolText(lexer.textSize);
-            for (int i = 0; i < lexer.textSize; i++) {
+            int spot = code.poolText((int) lexer.telling);
+            for (int i = 0; i < lexer.telling; i++) {
                 Store.putSign(code.pool, spot, i, lexer.signOfText(i));
             }
             return spot;
@@ -2973,42 +2969,42 @@ public final class MatchHouse {
 
         private void readSame(int t, int deep) {
             templates.kind[t] = Templates.SAME;
-            need('(');
+            lexer.need('(');
             readExp(deep + 1);
-            need(')');
+            lexer.need(')');
             code.emit(Code.SAME, t);
             sames++;
         }
 
         private void readTag(int t, int deep, int level) {
             templates.kind[t] = Templates.TAG;
-            if (lexer.token == Lexer.WORD) templates.word[t] = lexer.word;
-            need(Lexer.WORD);
+            if (lexer.token == Lexer.WORD) templates.word[t] = lexer.word();
+            lexer.need(Lexer.WORD);
             templates.first[t] = readTempl(deep + 1, level + 1);
         }
 
         private void readTemplFields(int t, int deep, int level) {
             templates.kind[t] = Templates.FIELDS;
-            if (take('}')) return;
+            if (lexer.take('}')) return;
             int last = -1;
             for (int k = 0; k <= MANY; k++) {
-                if (lexer.token != Lexer.WORD) fail(2);
-                else if (hasField(t, lexer.word)) fail(3);
-                else if (k == MANY) fail(5);
+                if (lexer.token != Lexer.WORD) lexer.fail(2);
+                else if (hasField(t, lexer.word())) lexer.fail(3);
+                else if (k == MANY) lexer.fail(5);
                 node();
-                if (fault != 0) return;
+                if (lexer.fault != 0) return;
                 int f = templates.add(Templates.ASIDE);
                 templates.kind[f] = Templates.FIELD;
-                templates.word[f] = lexer.word;
+                templates.word[f] = lexer.word();
                 if (k == 0) templates.first[t] = f;
                 else templates.next[last] = f;
                 last = f;
-                advance();
-                need(Lexer.ASSIGN);
+                lexer.advance();
+                lexer.need(Lexer.ASSIGN);
                 templates.first[f] = readTempl(deep + 1, level + 1);
-                if (!take(',')) break;
+                if (!lexer.take(',')) break;
             }
-            need('}');
+            lexer.need('}');
         }
 
         private boolean hasField(int t, int word) {
@@ -3021,7 +3017,7 @@ public final class MatchHouse {
         }
 
         private void readRow(int t, int sort, int deep, int level) {
-            need('(');
+            lexer.need('(');
             readInner(t, sort, deep, level);
         }
 
@@ -3030,39 +3026,39 @@ public final class MatchHouse {
             templates.kind[t] = sort;
             int last = -1;
             for (int k = 0; k <= ROW; k++) {
-                if (k == ROW && beginsTempl(lexer.token)) fail(5);
+                if (k == ROW && beginsTempl(lexer.token)) lexer.fail(5);
                 int part = readTempl(deep + 1, level + 1);
-                if (fault != 0) return;
+                if (lexer.fault != 0) return;
                 if (k == 0) templates.first[t] = part;
                 else templates.next[last] = part;
                 last = part;
-                if (!take(',')) break;
+                if (!lexer.take(',')) break;
             }
-            need(')');
+            lexer.need(')');
         }
 
         private void readPieces(int t, int deep, int level) {
             templates.kind[t] = Templates.ROW;
-            if (take(']')) return;
+            if (lexer.take(']')) return;
             int last = -1;
             for (int k = 0; k <= ROW; k++) {
                 boolean perm = lexer.token == Lexer.PERM;
-                if (k == ROW && (perm || beginsTempl(lexer.token))) fail(5);
+                if (k == ROW && (perm || beginsTempl(lexer.token))) lexer.fail(5);
                 int part = perm ? readPerm(deep, level + 1) : readTempl(deep + 1, level + 1);
-                if (fault != 0) return;
+                if (lexer.fault != 0) return;
                 if (k == 0) templates.first[t] = part;
                 else templates.next[last] = part;
                 last = part;
-                if (!take(',')) break;
+                if (!lexer.take(',')) break;
             }
-            need(']');
+            lexer.need(']');
         }
 
         private int readPerm(int deep, int level) {
             node();
-            if (fault != 0) return 0;
+            if (lexer.fault != 0) return 0;
             int t = templates.add(level);
-            advance();
+            lexer.advance();
             readRow(t, Templates.PERM, deep, level);
             return t;
         }
@@ -3084,31 +3080,27 @@ public final class MatchHouse {
             return token == '-' || token == '!' || token == '@' || token == Lexer.SIZE || beginsBase(token);
         }
 
-        /** An exp within no other: its first operation. */
-        private int readWholeExp() {
+        /** Its first operation; a WHOLE one stands alone and has an END. */
+        private int readExp(int deep) {
             int start = code.count;
-            readExp(0);
-            code.emit(Code.END, 0);
-            return start;
-        }
-
-        private void readExp(int deep) {
-            if (!beginsExp(lexer.token)) fail(2);
-            if (deep > DEEP) fail(5);
+            if (!beginsExp(lexer.token)) lexer.fail(2);
+            if (deep > DEEP) lexer.fail(5);
             int bottom = waits;
-            readOne(deep);
+            readOne(Math.max(0, deep));
             for (int k = 0; k < NODES; k++) {
                 int binding = bindingOf(lexer.token);
                 if (binding == 0) break;
                 lower(bottom, binding);
-                if (binding == 3 && waits > bottom && bindingOfTop() == 3) fail(2);
+                if (binding == 3 && waits > bottom && bindingOfTop() == 3) lexer.fail(2);
                 node();
-                if (fault != 0) break;
+                if (lexer.fault != 0) break;
                 pushOperator(lexer.token);
-                advance();
-                readOne(deep);
+                lexer.advance();
+                readOne(Math.max(0, deep));
             }
             lower(bottom, 0);
+            if (deep == WHOLE) code.emit(Code.END, 0);
+            return start;
         }
 
         private static int bindingOf(int token) {
@@ -3175,28 +3167,28 @@ public final class MatchHouse {
         /** - ! size @ ahead, a base, and . and [ ] behind it. */
         private void readOne(int deep) {
             int bottom = waits;
-            for (int k = 0; k <= NODES && fault == 0; k++) {
+            for (int k = 0; k <= NODES && lexer.fault == 0; k++) {
                 int token = lexer.token;
                 if (token != '-' && token != '!' && token != '@' && token != Lexer.SIZE) break;
                 node();
-                advance();
+                lexer.advance();
                 if (token == '-') pushWaiting(Code.MINUS, 0);
                 else if (token == '!') pushWaiting(Code.NOT, 0);
                 else if (token == Lexer.SIZE) pushWaiting(Code.SIZE, 0);
                 else pushWaiting(Code.TAG, takeFieldName());
             }
-            if (!beginsBase(lexer.token)) fail(2);
+            if (!beginsBase(lexer.token)) lexer.fail(2);
             node();
-            if (fault == 0) readBase(deep);
-            for (int k = 0; k <= NODES && fault == 0; k++) {
+            if (lexer.fault == 0) readBase(deep);
+            for (int k = 0; k <= NODES && lexer.fault == 0; k++) {
                 if (lexer.token != '.' && lexer.token != '[') break;
                 node();
-                if (take('.')) {
+                if (lexer.take('.')) {
                     int word = takeFieldName();
                     code.emit(Code.FIELD, word);
-                } else if (take('[')) {
+                } else if (lexer.take('[')) {
                     readExp(deep + 1);
-                    need(']');
+                    lexer.need(']');
                     code.emit(Code.INDEX, 0);
                 }
             }
@@ -3208,11 +3200,11 @@ public final class MatchHouse {
 
         /** The name of a field or choice. */
         private int takeFieldName() {
-            if (lexer.token != Lexer.WORD) fail(2);
-            if (fault != 0) return 0;
-            int word = lexer.word;
+            if (lexer.token != Lexer.WORD) lexer.fail(2);
+            if (lexer.fault != 0) return 0;
+            int word = lexer.word();
             if (word >= known) links.late(4, lexer.place);
-            advance();
+            lexer.advance();
             return word;
         }
 
@@ -3222,30 +3214,30 @@ public final class MatchHouse {
                 || token == Lexer.ACTIVE || token == Lexer.MET;
             if (bare && ofRuns) links.late(4, lexer.place);
             switch (token) {
-                case Lexer.NUMBER: code.emit(Code.CONST, code.poolCell(Store.plainCell(Store.NUMBER, lexer.number))); break;
+                case Lexer.NUMBER: code.emit(Code.CONST, code.poolCell(Store.plainCell(Store.NUMBER, lexer.telling))); break;
                 case Lexer.TRUE: code.emit(Code.CONST, code.poolCell(Code.truth(true))); break;
                 case Lexer.FALSE: code.emit(Code.CONST, code.poolCell(Code.truth(false))); break;
                 case Lexer.TEXT: code.emit(Code.CONST, poolText()); break;
-                case Lexer.OMIT: code.emit(Code.CONST, code.poolCell(Store.OMIT)); break;
+                case Lexer.OMIT: code.emit(Code.CONST, code.poolCell(Store.OMITTED)); break;
                 case Lexer.ME: code.emit(Code.ME, 0); break;
                 case Lexer.NOW: code.emit(Code.NOW, 0); break;
                 case Lexer.VERDICT: code.emit(Code.VERDICT, 0); break;
                 case Lexer.WORD: emitWord(); break;
                 default: break;
             }
-            advance();
+            lexer.advance();
             switch (token) {
                 case '{': readExpFields(deep); break;
                 case '[': readElements(deep); break;
                 case '(':
                     readExp(deep + 1);
-                    need(')');
+                    lexer.need(')');
                     break;
                 case Lexer.MET: readMet(deep); break;
                 case Lexer.ENDED:
-                    need('(');
+                    lexer.need('(');
                     readExp(deep + 1);
-                    need(')');
+                    lexer.need(')');
                     code.emit(Code.ENDED, 0);
                     break;
                 case Lexer.ACTIVE:
@@ -3256,7 +3248,7 @@ public final class MatchHouse {
         }
 
         private void emitWord() {
-            int word = lexer.word;
+            int word = lexer.word();
             int local = unit >= 0 ? plan.placeOf(unit, word) : -1;
             int own = kind >= 0 ? plan.varOf(kind, word) : -1;
             if (local >= 0) code.emit(Code.LOCAL, local);
@@ -3265,35 +3257,35 @@ public final class MatchHouse {
         }
 
         private void readMet(int deep) {
-            need('(');
+            lexer.need('(');
             readExp(deep + 1);
-            need(',');
+            lexer.need(',');
             int outer = sames;
             sames = 0;
             int root = readTempl(deep + 1, Templates.ASIDE);
             code.emit(Code.MET, root);
             code.emit(Code.NAME, sames);
             sames = outer;
-            need(')');
+            lexer.need(')');
         }
 
         private void readExpFields(int deep) {
             int bottom = open;
             if (lexer.token != '}') {
                 for (int k = 0; k <= MANY; k++) {
-                    if (lexer.token != Lexer.WORD) fail(2);
-                    else if (isOpen(bottom, lexer.word)) fail(3);
-                    else if (k == MANY) fail(5);
+                    if (lexer.token != Lexer.WORD) lexer.fail(2);
+                    else if (isOpen(bottom, lexer.word())) lexer.fail(3);
+                    else if (k == MANY) lexer.fail(5);
                     node();
-                    if (fault != 0) return;
+                    if (lexer.fault != 0) return;
                     names[open] = takeFieldName();
                     open++;
-                    need(Lexer.ASSIGN);
+                    lexer.need(Lexer.ASSIGN);
                     readExp(deep + 1);
-                    if (!take(',')) break;
+                    if (!lexer.take(',')) break;
                 }
             }
-            need('}');
+            lexer.need('}');
             code.emit(Code.RECORD, open - bottom);
             for (int i = bottom; i < open; i++) code.emit(Code.NAME, names[i]);
             open = bottom;
@@ -3308,17 +3300,17 @@ public final class MatchHouse {
 
         private void readElements(int deep) {
             int n = lexer.token == ']' ? 0 : readExps(deep + 1);
-            need(']');
+            lexer.need(']');
             code.emit(Code.LIST, n);
         }
 
         /** exp's: how many. */
         private int readExps(int deep) {
             int n = 0;
-            for (; n <= ROW && fault == 0; n++) {
-                if (n == ROW && beginsExp(lexer.token)) fail(5);
+            for (; n <= ROW && lexer.fault == 0; n++) {
+                if (n == ROW && beginsExp(lexer.token)) lexer.fail(5);
                 readExp(deep);
-                if (!take(',')) return n + 1;
+                if (!lexer.take(',')) return n + 1;
             }
             return n;
         }
@@ -3335,18 +3327,18 @@ public final class MatchHouse {
         }
 
         private int readBraces(int deep, int up, boolean branches) {
-            if (lexer.token != '{') fail(2);
-            if (deep > DEEP) fail(5);
-            advance();
+            if (lexer.token != '{') lexer.fail(2);
+            if (deep > DEEP) lexer.fail(5);
+            lexer.advance();
             int first = -1;
             int last = -1;
-            for (int k = 0; k <= Plan.STEPS && fault == 0 && lexer.token != '}'; k++) {
+            for (int k = 0; k <= Plan.STEPS && lexer.fault == 0 && lexer.token != '}'; k++) {
                 int s = branches ? readBranch(deep, up) : readStatement(deep, up);
                 if (first < 0) first = s;
                 else if (last >= 0) plan.steps[last][Plan.NEXT] = s;
                 last = s;
             }
-            need('}');
+            lexer.need('}');
             return first;
         }
 
@@ -3379,21 +3371,21 @@ public final class MatchHouse {
 
         private int readStatement(int deep, int up) {
             int sort = sortOf(lexer.token);
-            if (sort == 0) fail(2);
-            if (plan.stepCount >= Plan.STEPS) fail(5);
-            if (fault != 0) return -1;
+            if (sort == 0) lexer.fail(2);
+            if (plan.stepCount >= Plan.STEPS) lexer.fail(5);
+            if (lexer.fault != 0) return -1;
             int s = plan.addStep(sort, up);
             int[] step = plan.steps[s];
-            if (sort != Plan.ASSIGN && !isEvent(sort)) advance();
+            if (sort != Plan.ASSIGN && !isEvent(sort)) lexer.advance();
             switch (sort) {
                 case Plan.ASSIGN: readAssignment(s); return s;
                 case Plan.IF:
-                    step[Plan.CODE] = readWholeExp();
+                    step[Plan.CODE] = readExp(WHOLE);
                     step[Plan.FIRST] = readBlock(deep + 1, s);
-                    if (take(Lexer.ELSE)) step[Plan.OTHER] = readBlock(deep + 1, s);
+                    if (lexer.take(Lexer.ELSE)) step[Plan.OTHER] = readBlock(deep + 1, s);
                     return s;
                 case Plan.WHILE:
-                    step[Plan.CODE] = readWholeExp();
+                    step[Plan.CODE] = readExp(WHOLE);
                     step[Plan.FIRST] = readBlock(deep + 1, s);
                     return s;
                 case Plan.ALT: step[Plan.FIRST] = readAlts(deep + 1, s); return s;
@@ -3401,7 +3393,7 @@ public final class MatchHouse {
                 case Plan.CREATE: case Plan.START: case Plan.CONNECT: case Plan.USUAL: readOfComponents(s, sort); break;
                 default: readPlain(s, sort); break;
             }
-            need(';');
+            lexer.need(';');
             return s;
         }
 
@@ -3414,7 +3406,7 @@ public final class MatchHouse {
             switch (sort) {
                 case Plan.VAR: readVar(s); break;
                 case Plan.RETURN: case Plan.STOP:
-                    if (lexer.token != ';') step[Plan.CODE] = readWholeExp();
+                    if (lexer.token != ';') step[Plan.CODE] = readExp(WHOLE);
                     break;
                 case Plan.CALL:
                     readCall(s, Links.CALL);
@@ -3422,17 +3414,17 @@ public final class MatchHouse {
                     break;
                 case Plan.SET:
                     step[Plan.WHAT] = 1 + lexer.token - Lexer.PASS;
-                    if (lexer.token < Lexer.PASS || lexer.token > Lexer.FAIL) fail(2);
-                    advance();
+                    if (lexer.token < Lexer.PASS || lexer.token > Lexer.FAIL) lexer.fail(2);
+                    lexer.advance();
                     break;
-                case Plan.LOG: step[Plan.CODE] = readWholeExp(); break;
+                case Plan.LOG: step[Plan.CODE] = readExp(WHOLE); break;
                 case Plan.SEND:
                     link(Links.PORT, s, 0);
-                    step[Plan.CODE] = readWholeExp();
+                    step[Plan.CODE] = readExp(WHOLE);
                     break;
                 case Plan.BEGIN:
                     link(Links.TIMER, s, 0);
-                    step[Plan.CODE] = readWholeExp();
+                    step[Plan.CODE] = readExp(WHOLE);
                     break;
                 case Plan.HALT: link(Links.TIMER, s, 0); break;
                 default: break;
@@ -3444,23 +3436,23 @@ public final class MatchHouse {
             switch (sort) {
                 case Plan.CREATE:
                     link(Links.NEW_KIND, s, 0);
-                    if (lexer.token != Lexer.INTO) fail(2);
+                    if (lexer.token != Lexer.INTO) lexer.fail(2);
                     readInto(s);
                     break;
                 case Plan.START:
                     step[Plan.CODE] = code.count;
                     readExp(0);
-                    need(Lexer.AS);
+                    lexer.need(Lexer.AS);
                     readCall(s, Links.START);
                     break;
                 case Plan.CONNECT:
                     step[Plan.CODE] = code.count;
                     readExp(0);
-                    need(Lexer.AT);
+                    lexer.need(Lexer.AT);
                     step[Plan.WHAT] = takePort(s);
-                    need(Lexer.WITH);
+                    lexer.need(Lexer.WITH);
                     readExp(0);
-                    need(Lexer.AT);
+                    lexer.need(Lexer.AT);
                     step[Plan.MORE] = takePort(s);
                     code.emit(Code.END, 0);
                     break;
@@ -3469,7 +3461,7 @@ public final class MatchHouse {
         }
 
         private int takePort(int s) {
-            int word = lexer.word;
+            int word = lexer.word();
             link(Links.ANY_PORT, s, 0);
             return word;
         }
@@ -3479,8 +3471,8 @@ public final class MatchHouse {
             int local = takePlace();
             if (local < 0) return;
             readVarType(Links.PLACE_TYPE, unit * Plan.PLACES + local);
-            need(Lexer.ASSIGN);
-            step[Plan.CODE] = readWholeExp();
+            lexer.need(Lexer.ASSIGN);
+            step[Plan.CODE] = readExp(WHOLE);
             step[Plan.INTO] = local;
             // A var is told behind its exp.
             plan.places[unit]++;
@@ -3488,14 +3480,14 @@ public final class MatchHouse {
 
         /** The token is to be a parameter or var. */
         private void takeVar(int s) {
-            int local = lexer.token == Lexer.WORD ? plan.placeOf(unit, lexer.word) : -1;
+            int local = lexer.token == Lexer.WORD ? plan.placeOf(unit, lexer.word()) : -1;
             plan.steps[s][Plan.INTO] = local;
-            if (local >= 0) advance();
+            if (local >= 0) lexer.advance();
             else link(Links.VAR, s, 0);
         }
 
         private void readInto(int s) {
-            if (take(Lexer.INTO)) takeVar(s);
+            if (lexer.take(Lexer.INTO)) takeVar(s);
         }
 
         /** BEFORE: the operation behind those of the steps to the part. */
@@ -3503,34 +3495,34 @@ public final class MatchHouse {
             int[] step = plan.steps[s];
             takeVar(s);
             step[Plan.CODE] = code.count;
-            for (int k = 0; k <= NODES && fault == 0; k++) {
+            for (int k = 0; k <= NODES && lexer.fault == 0; k++) {
                 if (lexer.token != '.' && lexer.token != '[') break;
                 node();
-                if (take('.')) {
+                if (lexer.take('.')) {
                     int word = takeFieldName();
                     code.emit(Code.STEP_FIELD, word);
-                } else if (take('[')) {
+                } else if (lexer.take('[')) {
                     readExp(0);
-                    need(']');
+                    lexer.need(']');
                     code.emit(Code.STEP_INDEX, 0);
                 }
             }
-            need(Lexer.ASSIGN);
+            lexer.need(Lexer.ASSIGN);
             step[Plan.BEFORE] = code.count;
             readExp(0);
             code.emit(Code.END, 0);
-            need(';');
+            lexer.need(';');
         }
 
         /** A name and its arguments; what stood ahead of them is worked out with them. */
         private void readCall(int s, int sort) {
-            int word = lexer.word;
+            int word = lexer.word();
             int at = lexer.place;
-            need(Lexer.WORD);
-            need('(');
+            lexer.need(Lexer.WORD);
+            lexer.need('(');
             if (plan.steps[s][Plan.CODE] < 0) plan.steps[s][Plan.CODE] = code.count;
             int n = lexer.token == ')' ? 0 : readExps(0);
-            need(')');
+            lexer.need(')');
             code.emit(Code.END, 0);
             links.add(sort, at, word, home(), s, n);
         }
@@ -3538,39 +3530,39 @@ public final class MatchHouse {
         private void readEvent(int s) {
             int[] step = plan.steps[s];
             step[Plan.SORT] = sortOf(lexer.token);
-            advance();
+            lexer.advance();
             if (step[Plan.SORT] == Plan.TIMEOUT) link(Links.TIMER, s, 0);
-            if (step[Plan.SORT] == Plan.DONE) step[Plan.CODE] = readWholeExp();
+            if (step[Plan.SORT] == Plan.DONE) step[Plan.CODE] = readExp(WHOLE);
             if (step[Plan.SORT] != Plan.RECEIVE) return;
             link(Links.PORT, s, 0);
             step[Plan.BEFORE] = code.count;
             step[Plan.MORE] = readTempl(0, Templates.ASIDE);
             code.emit(Code.END, 0);
-            if (take(Lexer.FROM)) step[Plan.FROM] = readWholeExp();
+            if (lexer.take(Lexer.FROM)) step[Plan.FROM] = readExp(WHOLE);
             readInto(s);
         }
 
         private int readBranch(int deep, int up) {
-            if (lexer.token != '[') fail(2);
-            if (plan.stepCount >= Plan.STEPS) fail(5);
-            if (fault != 0) return -1;
+            if (lexer.token != '[') lexer.fail(2);
+            if (plan.stepCount >= Plan.STEPS) lexer.fail(5);
+            if (lexer.fault != 0) return -1;
             int s = plan.addStep(Plan.ELSE, up);
             int[] step = plan.steps[s];
-            advance();
-            if (take(Lexer.ELSE)) {
-                need(']');
+            lexer.advance();
+            if (lexer.take(Lexer.ELSE)) {
+                lexer.need(']');
                 step[Plan.FIRST] = readBlock(deep + 1, s);
                 return s;
             }
-            if (lexer.token != ']') step[Plan.GUARD] = readWholeExp();
-            need(']');
-            if (take(Lexer.STEP)) {
+            if (lexer.token != ']') step[Plan.GUARD] = readExp(WHOLE);
+            lexer.need(']');
+            if (lexer.take(Lexer.STEP)) {
                 step[Plan.SORT] = Plan.STEP;
                 readCall(s, Links.ALTSTEP);
-                need(';');
+                lexer.need(';');
                 return s;
             }
-            if (!isEvent(sortOf(lexer.token))) fail(2);
+            if (!isEvent(sortOf(lexer.token))) lexer.fail(2);
             readEvent(s);
             step[Plan.FIRST] = readBlock(deep + 1, s);
             return s;
@@ -3609,7 +3601,7 @@ public final class MatchHouse {
 
         // ---- as text
 
-        int write(long[] a, int at) {
+        int writeText(long[] a, int at) {
             handSize = 0;
             open = 0;
             int size = Store.size(a[at]);
@@ -3619,7 +3611,7 @@ public final class MatchHouse {
                     case Store.NUMBER: writeNumber(Store.told(cell)); break;
                     case Store.TRUTH: writeWords(Store.told(cell) != 0 ? "true" : "false"); break;
                     case Store.TEXT:
-                        writeText(a, at + i);
+                        writeSigns(a, at + i);
                         i += Store.size(cell) - 1;
                         break;
                     case Store.WORD: writeName(Store.wordOf(cell)); break;
@@ -3647,7 +3639,7 @@ public final class MatchHouse {
         /** Behind a part: it opens parts of its own, or ends, and with it what it is the last part of. */
         private void closeWritten(long cell) {
             int kind = Store.kind(cell);
-            int parts = kind == Store.RECORD || kind == Store.CHOICE || kind == Store.LIST ? Store.count(cell) : 0;
+            int parts = kind == Store.CHOICE ? 1 : kind == Store.RECORD || kind == Store.LIST ? Store.partsOf(cell) : 0;
             if (open >= openLeft.length) return;
             openLeft[open] = parts;
             openAt[open] = kind == Store.RECORD ? '}' : kind == Store.LIST ? ']' : 0;
@@ -3676,7 +3668,7 @@ public final class MatchHouse {
             handSize = lexer.writeWord(word, hand, handSize);
         }
 
-        private void writeText(long[] a, int at) {
+        private void writeSigns(long[] a, int at) {
             int n = Store.extent(a[at]);
             writeSign('"');
             for (int i = 0; i < n; i++) writeSign(Store.sign(a, at, i));
@@ -3708,7 +3700,7 @@ public final class MatchHouse {
         }
 
         /** The row becomes the code of a VALUE that FITS the type: how many bits. */
-        int write(long[] a, int at, int type) {
+        int writeBits(long[] a, int at, int type) {
             bitCount = 0;
             open = 0;
             expect(at, type);
@@ -3787,7 +3779,7 @@ public final class MatchHouse {
         // Parts are expected from the last to the first, as the one that is expected last is written first.
 
         private void writeList(long[] a, int at, int t) {
-            int n = Store.count(a[at]);
+            int n = Store.partsOf(a[at]);
             writeLength(t, n);
             for (int i = n - 1; i >= 0; i--) expect(Store.elementAt(a, at, i), types.first[t]);
         }
@@ -3841,7 +3833,7 @@ public final class MatchHouse {
             }
             open--;
             int at = openAt[top];
-            out[at] += (long) (outSize - at) << 12;
+            out[at] += (long) (outSize - at) << 4;
             if (types.kind[t] == Types.RECORD) Store.sortFields(out, at, spare);
         }
 
@@ -3923,7 +3915,7 @@ public final class MatchHouse {
                 return;
             }
             int at = outSize;
-            putCell(Store.plainCell(Store.TEXT, n));
+            putCell(Store.textCell(n));
             outSize += (n + 7) / 8;
             for (int i = 0; i < n && wrong < 0; i++) {
                 int first = readAt;
@@ -3935,7 +3927,7 @@ public final class MatchHouse {
 
         private void openList(int t) {
             int n = (int) (types.low[t] + takeUpTo(types.high[t] - types.low[t]));
-            openPart(t, n, Store.wholeCell(Store.LIST, 0, n, 0));
+            openPart(t, n, Store.cell(Store.LIST, 0, n));
         }
 
         private void openRecord(int t) {
@@ -3949,13 +3941,13 @@ public final class MatchHouse {
                 }
                 f = types.next[f];
             }
-            openPart(t, there, Store.wholeCell(Store.RECORD, 0, n, 0));
+            openPart(t, there, Store.cell(Store.RECORD, 0, n));
         }
 
         private void openChoice(int t) {
             int place = (int) takeUpTo(types.link[t] - 1);
             int field = fieldAt(t, place);
-            if (field >= 0) openPart(t, place + 1, Store.wholeCell(Store.CHOICE, types.word[field], 1, 0));
+            if (field >= 0) openPart(t, place + 1, Store.cell(Store.CHOICE, 0, types.word[field]));
         }
 
         private void openPart(int t, int left, long cell) {
@@ -4122,7 +4114,7 @@ public final class MatchHouse {
             part.status = Part.RUNS;
             part.pushFrame(unit, plan.unitFirst[unit]);
             store.note(STARTED, part.number, 0);
-            settle(part);
+            if (plan.unitFirst[unit] < 0) finish(part);
         }
 
         /** A COMPONENT's vars, in order: 0 or the ERROR. */
@@ -4133,32 +4125,22 @@ public final class MatchHouse {
                 code.clear();
                 int error = code.work(plan.varCode[part.kind * Plan.PLACES + i]);
                 if (error != 0) return error;
-                if (!suits(plan.varType[part.kind * Plan.PLACES + i])) return 4;
+                int type = plan.varType[part.kind * Plan.PLACES + i];
+                if (type >= 0 && !types.holds(code.stack, code.topAt(), types.roots[type])) return 4;
                 store.put(part.varSlot(i), code.stack, code.topAt());
             }
             return 0;
         }
 
-        /** Whether the top VALUE FITS a type (- 1: any). */
-        private boolean suits(int type) {
-            return type < 0 || types.holds(code.stack, code.topAt(), types.roots[type]);
-        }
-
         /** What exps see is this COMPONENT's. */
         private void see(Part part) {
             code.clear();
-            code.me = part.number;
-            code.verdict = part.judgement;
+            code.part = part;
             code.now = time;
-            code.own = part.varSlot(0);
             code.frame = part.topSlot();
             code.endedParts = 0;
             for (int i = 0; i < made; i++) {
                 if (parts[i].status == Part.ENDED) code.endedParts |= 1 << i;
-            }
-            code.activeTimers = 0;
-            for (int i = 0; i < Plan.TIMERS; i++) {
-                if (part.due[i] > time) code.activeTimers |= 1 << i;
             }
         }
 
@@ -4168,19 +4150,18 @@ public final class MatchHouse {
             return worst;
         }
 
+        /** Whether some COMPONENT that RUNS can do a STEP now. */
         boolean canGoOn() {
             for (int i = 0; i < made; i++) {
-                if (parts[i].status == Part.RUNS && canStep(parts[i])) return true;
+                Part part = parts[i];
+                int s = part.status == Part.RUNS ? nextOf(part) : -1;
+                if (s >= 0) {
+                    if (!waits(plan.steps[s][Plan.SORT])) return true;
+                    see(part);
+                    if (look(part, s) != NO) return true;
+                }
             }
             return false;
-        }
-
-        private boolean canStep(Part part) {
-            int s = nextOf(part);
-            if (s < 0) return false;
-            if (!waits(plan.steps[s][Plan.SORT])) return true;
-            see(part);
-            return look(part, s) != NO;
         }
 
         private static int nextOf(Part part) {
@@ -4215,40 +4196,44 @@ public final class MatchHouse {
             if (s < 0) return false;
             see(part);
             int sort = plan.steps[s][Plan.SORT];
-            int error;
+            int error = 0;
             if (waits(sort)) {
                 int found = look(part, s);
                 if (found == NO) return false;
                 error = found == WRONG ? code.error : enter(part, s);
             } else {
-                error = perform(part, s, sort);
+                if (sort == Plan.CREATE) error = made < PARTS ? workNew(plan.steps[s][Plan.WHAT]) : 7;
+                if (error == 0) error = perform(part, s, sort);
             }
             part.steps++;
-            if (error == 0) error = settle(part);
+            if (error == 0) error = settle(part, sort == Plan.RETURN);
             if (error != 0) fail(part, error);
             return true;
         }
 
-        /** Goes back from functions that have come to their end: 0 or the ERROR. */
-        private int settle(Part part) {
-            int error = 0;
-            for (int i = 0; i <= Part.FRAMES && error == 0; i++) {
-                if (part.status != Part.RUNS || nextOf(part) >= 0) return 0;
-                code.pushCell(Store.OMIT);
-                error = giveBack(part);
+        /** Goes back from functions that have come to their end, at first with the top VALUE if it returns: 0 or the ERROR. */
+        private int settle(Part part, boolean returns) {
+            for (int i = 0; i <= Part.FRAMES && part.status == Part.RUNS && nextOf(part) < 0; i++) {
+                if (part.frames <= 1) {
+                    finish(part);
+                    return 0;
+                }
+                if (i > 0 || !returns) code.pushCell(Store.OMITTED);
+                part.frames--;
+                int into = part.frameInto[part.frames];
+                int error = into < 0 ? 0 : assign(part, into);
+                if (error != 0) return error;
             }
-            return error;
+            return 0;
         }
 
-        /** The topmost FRAME goes, and gives the top VALUE back. */
-        private int giveBack(Part part) {
-            if (part.frames <= 1) {
-                finish(part);
-                return 0;
-            }
-            part.frames--;
-            int into = part.frameInto[part.frames];
-            return into < 0 ? 0 : assign(part, into);
+        /** The vars of a COMPONENT that is to be made; its number is on the stack then: 0 or the ERROR. */
+        private int workNew(int kind) {
+            parts[made].renew(kind);
+            int error = workVars(parts[made]);
+            code.clear();
+            code.pushCell(Store.plainCell(Store.COMPONENT, made));
+            return error;
         }
 
         private int typeOf(Part part, int unit, int into) {
@@ -4263,8 +4248,8 @@ public final class MatchHouse {
 
         /** The top VALUE comes to a parameter or var. */
         private int assign(Part part, int into) {
-            int unit = part.frameUnit[part.frames - 1];
-            if (!suits(typeOf(part, unit, into))) return 4;
+            int type = typeOf(part, part.frameUnit[part.frames - 1], into);
+            if (type >= 0 && !types.holds(code.stack, code.topAt(), types.roots[type])) return 4;
             store.put(slotOf(part, into), code.stack, code.topAt());
             return 0;
         }
@@ -4299,32 +4284,33 @@ public final class MatchHouse {
             part.frameNext[top] = plan.after(s);
             switch (sort) {
                 case Plan.VAR: return assign(part, step[Plan.INTO]);
-                case Plan.ASSIGN: return performAssignment(part, step);
+                case Plan.ASSIGN:
+                    if (step[Plan.BEFORE] > step[Plan.CODE]) {
+                        error = code.assignPart(step[Plan.CODE], step[Plan.BEFORE], slotOf(part, step[Plan.INTO]));
+                    }
+                    return error != 0 ? error : assign(part, step[Plan.INTO]);
                 case Plan.IF: case Plan.WHILE: return choose(part, s);
                 case Plan.RETURN:
-                    if (step[Plan.CODE] < 0) code.pushCell(Store.OMIT);
-                    return giveBack(part);
+                    if (step[Plan.CODE] < 0) code.pushCell(Store.OMITTED);
+                    part.frameNext[top] = -1;
+                    return 0;
                 case Plan.CALL: return call(part, step);
                 case Plan.SET: judge(part, step[Plan.WHAT]); return 0;
                 case Plan.LOG: case Plan.SEND: return speak(part, step, sort);
                 case Plan.BEGIN: return beginTimer(part, step[Plan.WHAT]);
                 case Plan.HALT: part.due[step[Plan.WHAT]] = -1; return 0;
-                case Plan.CREATE: return create(part, step);
+                case Plan.CREATE:
+                    error = assign(part, step[Plan.INTO]);
+                    if (error != 0) return error;
+                    made++;
+                    store.note(MADE, made - 1, step[Plan.WHAT]);
+                    return 0;
                 case Plan.START: return start(part, step);
                 case Plan.CONNECT: return connect(step);
                 case Plan.STOP: return stop(part, step);
                 case Plan.USUAL: return addUsual(part, step);
                 default: part.usuals = 0; return 0;
             }
-        }
-
-        private int performAssignment(Part part, int[] step) {
-            int into = step[Plan.INTO];
-            if (step[Plan.BEFORE] > step[Plan.CODE]) {
-                int error = code.assignPart(step[Plan.CODE], step[Plan.BEFORE], slotOf(part, into));
-                if (error != 0) return error;
-            }
-            return assign(part, into);
         }
 
         private int choose(Part part, int s) {
@@ -4375,20 +4361,6 @@ public final class MatchHouse {
             long ticks = Store.told(code.top());
             if (ticks < 1 || ticks > 1_000_000_000) return 3;
             part.due[timer] = time + ticks;
-            return 0;
-        }
-
-        private int create(Part part, int[] step) {
-            if (made >= PARTS) return 7;
-            Part fresh = parts[made];
-            fresh.renew(step[Plan.WHAT]);
-            int error = workVars(fresh);
-            if (error != 0) return error;
-            code.pushCell(Store.plainCell(Store.COMPONENT, made));
-            error = assign(part, step[Plan.INTO]);
-            if (error != 0) return error;
-            made++;
-            store.note(MADE, fresh.number, fresh.kind);
             return 0;
         }
 
@@ -4465,15 +4437,33 @@ public final class MatchHouse {
             int[] step = plan.steps[s];
             code.frame = frame;
             code.clear();
-            code.error = 0;
             if (step[Plan.GUARD] >= 0) {
                 if (code.work(step[Plan.GUARD]) != 0) return WRONG;
                 if (Store.kind(code.top()) != Store.TRUTH) return wrong(1);
                 if (Store.told(code.top()) == 0) return NO;
                 code.clear();
             }
-            if (step[Plan.SORT] == Plan.STEP) return lookInStep(part, step, deep);
-            int found = lookAtEvent(part, step);
+            int found = NO;
+            switch (step[Plan.SORT]) {
+                case Plan.STEP: return lookInStep(part, step, deep);
+                case Plan.RECEIVE:
+                    int port = step[Plan.WHAT];
+                    if (part.held[port] == 0) return NO;
+                    if (step[Plan.FROM] >= 0) {
+                        found = lookAtPart(step[Plan.FROM], -1, part.sender(port));
+                        if (found != TAKEN) return found;
+                        code.clear();
+                    }
+                    if (code.work(step[Plan.BEFORE]) != 0) return WRONG;
+                    found = templates.meets(step[Plan.MORE], store.cells, part.queueSlot(port, 0) * Store.HEAVIEST) ? TAKEN : NO;
+                    break;
+                case Plan.TIMEOUT:
+                    long due = part.due[step[Plan.WHAT]];
+                    if (due >= 0 && due <= time) found = TAKEN;
+                    break;
+                case Plan.DONE: found = lookAtPart(step[Plan.CODE], Part.ENDED, -1); break;
+                default: found = TAKEN; break;
+            }
             if (found == TAKEN) {
                 takenStep = s;
                 takenUnit = unit;
@@ -4487,6 +4477,14 @@ public final class MatchHouse {
             return WRONG;
         }
 
+        /** Whether an exp is a COMPONENT that is as wanted, or has this number. */
+        private int lookAtPart(int exp, int status, int number) {
+            if (code.work(exp) != 0) return WRONG;
+            Part other = partAt(0);
+            if (other == null) return wrong(1);
+            return other.status == status || other.number == number ? TAKEN : NO;
+        }
+
         private int lookInStep(Part part, int[] step, int deep) {
             if (code.work(step[Plan.CODE]) != 0) return WRONG;
             if (deep >= STEPS_DEEP) return wrong(7);
@@ -4494,35 +4492,6 @@ public final class MatchHouse {
             putArguments(frame, 0);
             int unit = step[Plan.WHAT];
             return lookAtAll(part, plan.unitFirst[unit], frame, unit, deep + 1);
-        }
-
-        private int lookAtEvent(Part part, int[] step) {
-            switch (step[Plan.SORT]) {
-                case Plan.ELSE: return TAKEN;
-                case Plan.TIMEOUT:
-                    long due = part.due[step[Plan.WHAT]];
-                    return due >= 0 && due <= time ? TAKEN : NO;
-                case Plan.DONE:
-                    if (code.work(step[Plan.CODE]) != 0) return WRONG;
-                    Part other = partAt(0);
-                    if (other == null) return wrong(1);
-                    return other.status == Part.ENDED ? TAKEN : NO;
-                default: return lookInQueue(part, step);
-            }
-        }
-
-        private int lookInQueue(Part part, int[] step) {
-            int port = step[Plan.WHAT];
-            if (part.held[port] == 0) return NO;
-            if (step[Plan.FROM] >= 0) {
-                if (code.work(step[Plan.FROM]) != 0) return WRONG;
-                Part from = partAt(0);
-                if (from == null) return wrong(1);
-                if (from.number != part.sender(port)) return NO;
-                code.clear();
-            }
-            if (code.work(step[Plan.BEFORE]) != 0) return WRONG;
-            return templates.meets(step[Plan.MORE], store.cells, part.queueSlot(port, 0) * Store.HEAVIEST) ? TAKEN : NO;
         }
 
         /** Takes the branch that look() found: 0 or the ERROR. */
