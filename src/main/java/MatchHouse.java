@@ -1350,14 +1350,6 @@ public final class MatchHouse {
             return start;
         }
 
-        private int poolValue(long[] a, int from) {
-            int size = Store.size(a[from]);
-            if (pooled + size > POOL) return 0;
-            System.arraycopy(a, from, pool, pooled, size);
-            pooled += size;
-            return pooled - size;
-        }
-
         void clear() {
             depth = 0;
             at[0] = 0;
@@ -1649,12 +1641,15 @@ public final class MatchHouse {
             depth = base + 1;
         }
 
+        /** The VALUE of a = ( ) stays on the stack; while settling it goes into the pool. */
         private void keepSame(int node) {
-            if (!settling) {
-                templates.low[node] = topAt();
-                return;
-            }
-            templates.low[node] = -1 - poolValue(stack, topAt());
+            int from = at[depth - 1];
+            int size = at[depth] - from;
+            templates.low[node] = from;
+            if (!settling || pooled + size > POOL) return;
+            System.arraycopy(stack, from, pool, pooled, size);
+            templates.low[node] = -1 - pooled;
+            pooled += size;
             depth--;
         }
 
@@ -2468,10 +2463,10 @@ public final class MatchHouse {
                     code.arg[spot] = timer;
                     return timer >= 0;
                 case VAR:
-                    int var = plan.varOf(kind, word);
-                    return put(spot, Plan.INTO, var < 0 ? -1 : Plan.PLACES + var);
-                default:
                     int own = plan.varOf(kind, word);
+                    return put(spot, Plan.INTO, own < 0 ? -1 : Plan.PLACES + own);
+                default:
+                    own = plan.varOf(kind, word);
                     if (own < 0) return lexer.inEnum[word];
                     code.op[spot] = Code.OWN;
                     code.arg[spot] = own;
@@ -4202,7 +4197,12 @@ public final class MatchHouse {
                 if (found == NO) return false;
                 error = found == WRONG ? code.error : enter(part, s);
             } else {
-                if (sort == Plan.CREATE) error = made < PARTS ? workNew(plan.steps[s][Plan.WHAT]) : 7;
+                if (sort == Plan.CREATE && made >= PARTS) {
+                    error = 7;
+                } else if (sort == Plan.CREATE) {
+                    parts[made].renew(plan.steps[s][Plan.WHAT]);
+                    error = workVars(parts[made]);
+                }
                 if (error == 0) error = perform(part, s, sort);
             }
             part.steps++;
@@ -4225,15 +4225,6 @@ public final class MatchHouse {
                 if (error != 0) return error;
             }
             return 0;
-        }
-
-        /** The vars of a COMPONENT that is to be made; its number is on the stack then: 0 or the ERROR. */
-        private int workNew(int kind) {
-            parts[made].renew(kind);
-            int error = workVars(parts[made]);
-            code.clear();
-            code.pushCell(Store.plainCell(Store.COMPONENT, made));
-            return error;
         }
 
         private int typeOf(Part part, int unit, int into) {
@@ -4300,6 +4291,7 @@ public final class MatchHouse {
                 case Plan.BEGIN: return beginTimer(part, step[Plan.WHAT]);
                 case Plan.HALT: part.due[step[Plan.WHAT]] = -1; return 0;
                 case Plan.CREATE:
+                    code.pushCell(Store.plainCell(Store.COMPONENT, made));
                     error = assign(part, step[Plan.INTO]);
                     if (error != 0) return error;
                     made++;
@@ -4450,7 +4442,8 @@ public final class MatchHouse {
                     int port = step[Plan.WHAT];
                     if (part.held[port] == 0) return NO;
                     if (step[Plan.FROM] >= 0) {
-                        found = lookAtPart(step[Plan.FROM], -1, part.sender(port));
+                        if (code.work(step[Plan.FROM]) != 0) return WRONG;
+                        found = lookAtPart(-1, part.sender(port));
                         if (found != TAKEN) return found;
                         code.clear();
                     }
@@ -4461,7 +4454,10 @@ public final class MatchHouse {
                     long due = part.due[step[Plan.WHAT]];
                     if (due >= 0 && due <= time) found = TAKEN;
                     break;
-                case Plan.DONE: found = lookAtPart(step[Plan.CODE], Part.ENDED, -1); break;
+                case Plan.DONE:
+                    if (code.work(step[Plan.CODE]) != 0) return WRONG;
+                    found = lookAtPart(Part.ENDED, -1);
+                    break;
                 default: found = TAKEN; break;
             }
             if (found == TAKEN) {
@@ -4477,9 +4473,8 @@ public final class MatchHouse {
             return WRONG;
         }
 
-        /** Whether an exp is a COMPONENT that is as wanted, or has this number. */
-        private int lookAtPart(int exp, int status, int number) {
-            if (code.work(exp) != 0) return WRONG;
+        /** Whether the VALUE is a COMPONENT that is as wanted, or has this number. */
+        private int lookAtPart(int status, int number) {
             Part other = partAt(0);
             if (other == null) return wrong(1);
             return other.status == status || other.number == number ? TAKEN : NO;
