@@ -850,7 +850,8 @@ public final class MatchHouse {
         final int[] places = new int[TYPES];
         int told;
         private final long[] ways = new long[NODES * (COUNTED + 1)];
-        private boolean counted;
+        /** The weight up to which VALUES are counted. */
+        private int counted;
         private final long[] sums = new long[2 * (COUNTED + 1)];
         // Pairs of a told type and a node that are to be held against each other, and those that have been.
         private final long[] marked = new long[TYPES * LINE];
@@ -905,7 +906,7 @@ public final class MatchHouse {
 
         /** Works out the least weights; NEVER: there is no VALUE, of whatever weight. */
         void settle() {
-            counted = false;
+            counted = 0;
             Arrays.fill(least, NEVER);
             boolean changed = true;
             for (int round = 0; changed && round <= NODES; round++) {
@@ -1170,14 +1171,10 @@ public final class MatchHouse {
         // ---- how many VALUES of a weight
 
         long ways(int type, int weight) {
-            if (!counted) {
-                Arrays.fill(ways, 0);
-                for (int w = 1; w <= COUNTED; w++) {
-                    for (int n = 0; n < nodes; n++) {
-                        ways[n * (COUNTED + 1) + w] = waysOf(n, w);
-                    }
+            for (; counted < weight && counted < COUNTED; counted++) {
+                for (int n = 0; n < nodes; n++) {
+                    ways[n * (COUNTED + 1) + counted + 1] = waysOf(n, counted + 1);
                 }
-                counted = true;
             }
             return waysAt(roots[type], weight);
         }
@@ -1292,7 +1289,7 @@ public final class MatchHouse {
             LESS = 22, ATMOST = 23, MORE = 24, ATLEAST = 25, EQUAL = 26, UNEQUAL = 27,
             AND = 28, OR = 29, TRUTH = 30, LIST = 31, RECORD = 32, NAME = 33, SAME = 34, CHECK = 35, MET = 36,
             STEP_FIELD = 37, STEP_INDEX = 38;
-        private static final int OPERATIONS = 16_000, POOL = 26_000, VALUES = 3_200, STACK = 224_000;
+        private static final int OPERATIONS = 16_000, POOL = 26_000, VALUES = 3_200, STACK = 48_000;
 
         final int[] op = new int[OPERATIONS];
         final int[] arg = new int[OPERATIONS];
@@ -1379,7 +1376,7 @@ public final class MatchHouse {
                 else if (o <= FIELD) unary(o, arg[i]);
                 else if (o <= UNEQUAL) binary(o);
                 else if (o <= OR) i = Math.max(i, jump(o, i));
-                else if (o == MET) hold(arg[i], arg[i + 1]);
+                else if (o == MET) hold(arg[i]);
                 else gather(o, i);
             }
             return error;
@@ -1415,7 +1412,7 @@ public final class MatchHouse {
             depth++;
         }
 
-        private void pushFrom(long[] a, int from) {
+        void pushFrom(long[] a, int from) {
             int size = Store.size(a[from]);
             if (!hasRoom(size)) return;
             System.arraycopy(a, from, stack, at[depth], size);
@@ -1641,28 +1638,28 @@ public final class MatchHouse {
             depth = base + 1;
         }
 
-        /** The VALUE of a = ( ) stays on the stack; while settling it goes into the pool. */
+        /** The top VALUE is that of a = ( ): a literal, if settling; else it is held against what stands below it. */
         private void keepSame(int node) {
             int from = at[depth - 1];
             int size = at[depth] - from;
-            templates.low[node] = from;
-            if (!settling || pooled + size > POOL) return;
-            System.arraycopy(stack, from, pool, pooled, size);
-            templates.low[node] = -1 - pooled;
-            pooled += size;
+            if (!settling) {
+                if (depth > 1) templates.markSame(node, stack, from, at[depth - 2]);
+            } else if (pooled + size <= POOL) {
+                System.arraycopy(stack, from, pool, pooled, size);
+                templates.setLiteral(node, pooled);
+                pooled += size;
+            }
             depth--;
         }
 
-        /** met: the VALUE stands below the so many VALUES of = ( ). */
-        private void hold(int root, int sames) {
-            int v = depth - sames - 1;
-            if (v < 0) {
+        /** met: the top VALUE is held against a templ, whose = ( ) have been already. */
+        private void hold(int root) {
+            if (depth < 1) {
                 error = 1;
                 return;
             }
-            boolean met = templates.meets(root, stack, at[v]);
-            depth = v;
-            pushCell(truth(met));
+            boolean met = templates.meets(root, stack, at[depth - 1]);
+            replaceTop(truth(met));
         }
 
         // ---- assignment to a part
@@ -1794,9 +1791,9 @@ public final class MatchHouse {
         /** 0, or 'length': 1, its least and greatest by bytes. */
         final int[] span = new int[NODES];
         final boolean[] ifPresent = new boolean[NODES];
-        /** A range's least; of = ( ) where its VALUE is: on the stack, or (below 0) in the pool. */
+        // A range's least and greatest; of = ( ) in an exp or statement to which parts of the VALUE it is alike: bits by
+        // their places and 1, 0 for OMIT; of = ( ) in a told template (high) its ERROR.
         final long[] low = new long[NODES];
-        /** A range's greatest; of = ( ) its ERROR, of a told template. */
         final long[] high = new long[NODES];
         int nodes;
         final int[][] table = new int[TEMPLATES][7];
@@ -1906,6 +1903,25 @@ public final class MatchHouse {
             return 0;
         }
 
+        /** The tone of a node is a VALUE in the pool. */
+        void setLiteral(int node, int spot) {
+            kind[node] = Store.kind(code.pool[spot]) == Store.OMIT ? OMIT : LITERAL;
+            word[node] = spot;
+        }
+
+        /** Marks the parts of a VALUE that another one is alike to. */
+        void markSame(int node, long[] a, int other, int at) {
+            int size = Store.size(a[at]);
+            low[node] = Store.kind(a[other]) == Store.OMIT ? 1 : 0;
+            high[node] = 0;
+            for (int v = 0; v < size; v++) {
+                if (Store.same(a, other, a, at + v)) {
+                    if (v < 63) low[node] |= 1L << (v + 1);
+                    else high[node] |= 1L << (v - 63);
+                }
+            }
+        }
+
         /** The first ERROR of the template that a node names, if it names one. */
         int wrongOf(int node) {
             return kind[node] == LINK ? table[word[node]][WRONG] : 0;
@@ -1936,7 +1952,7 @@ public final class MatchHouse {
                 case LITERAL: return v >= 0 && Store.same(cells, base + v, code.pool, word[t]);
                 case WORD: return v >= 0 && cells[base + v] == Store.plainCell(Store.WORD, word[t]);
                 case PATTERN: return v >= 0 && Store.kind(cells[base + v]) == Store.TEXT && fitsPattern(word[t], base + v);
-                case SAME: return isSame(low[t], v);
+                case SAME: return ((v < 63 ? low[t] >> (v + 1) : high[t] >> (v - 63)) & 1) != 0;
                 case LINK: return matchesLink(word[t], v, deep);
                 case FIELDS: return v >= 0 && Store.kind(cells[base + v]) == Store.RECORD && matchesFields(t, v, deep);
                 case TAG:
@@ -1962,13 +1978,6 @@ public final class MatchHouse {
 
         private static boolean isBetween(long cell, long least, long greatest) {
             return Store.kind(cell) == Store.NUMBER && Store.told(cell) >= least && Store.told(cell) <= greatest;
-        }
-
-        private boolean isSame(long spot, int v) {
-            long[] other = spot < 0 ? code.pool : code.stack;
-            int at = (int) (spot < 0 ? -1 - spot : spot);
-            if (v < 0) return Store.kind(other[at]) == Store.OMIT;
-            return Store.same(cells, base + v, other, at);
         }
 
         private boolean matchesLink(int template, int v, int deep) {
@@ -2520,8 +2529,6 @@ public final class MatchHouse {
         private boolean bare;
         /** Words from this number on are not of the module's text. */
         private int known;
-        /** How many = ( ) the templ that is read has. */
-        private int sames;
 
         Reader(Links links) {
             this.links = links;
@@ -2920,9 +2927,9 @@ public final class MatchHouse {
                     code.emit(Code.CHECK, t);
                     link(Links.TEMPL, t, 0);
                     return;
-                case Lexer.TEXT: setLiteral(t, poolText()); break;
-                case Lexer.TRUE: setLiteral(t, code.poolCell(Code.truth(true))); break;
-                case Lexer.FALSE: setLiteral(t, code.poolCell(Code.truth(false))); break;
+                case Lexer.TEXT: templates.setLiteral(t, poolText()); break;
+                case Lexer.TRUE: templates.setLiteral(t, code.poolCell(Code.truth(true))); break;
+                case Lexer.FALSE: templates.setLiteral(t, code.poolCell(Code.truth(false))); break;
                 case Lexer.OMIT: templates.kind[t] = Templates.OMIT; break;
                 case '?': templates.kind[t] = Templates.ANY; break;
                 case '*': templates.kind[t] = Templates.STAR; break;
@@ -2940,17 +2947,12 @@ public final class MatchHouse {
                 case Lexer.SUBSET: readRow(t, Templates.SUBSET, deep, level); break;
                 case Lexer.SUPERSET: readRow(t, Templates.SUPERSET, deep, level); break;
                 case Lexer.PATTERN:
-                    if (lexer.token == Lexer.TEXT) setLiteral(t, poolText());
+                    if (lexer.token == Lexer.TEXT) templates.setLiteral(t, poolText());
                     templates.kind[t] = Templates.PATTERN;
                     lexer.need(Lexer.TEXT);
                     break;
                 default: break;
             }
-        }
-
-        private void setLiteral(int t, int spot) {
-            templates.kind[t] = Templates.LITERAL;
-            templates.word[t] = spot;
         }
 
         /** The TEXT that is the token, in the pool. */
@@ -2968,7 +2970,6 @@ public final class MatchHouse {
             readExp(deep + 1);
             lexer.need(')');
             code.emit(Code.SAME, t);
-            sames++;
         }
 
         private void readTag(int t, int deep, int level) {
@@ -3255,12 +3256,7 @@ public final class MatchHouse {
             lexer.need('(');
             readExp(deep + 1);
             lexer.need(',');
-            int outer = sames;
-            sames = 0;
-            int root = readTempl(deep + 1, Templates.ASIDE);
-            code.emit(Code.MET, root);
-            code.emit(Code.NAME, sames);
-            sames = outer;
+            code.emit(Code.MET, readTempl(deep + 1, Templates.ASIDE));
             lexer.need(')');
         }
 
@@ -4447,8 +4443,9 @@ public final class MatchHouse {
                         if (found != TAKEN) return found;
                         code.clear();
                     }
+                    code.pushFrom(store.cells, part.queueSlot(port, 0) * Store.HEAVIEST);
                     if (code.work(step[Plan.BEFORE]) != 0) return WRONG;
-                    found = templates.meets(step[Plan.MORE], store.cells, part.queueSlot(port, 0) * Store.HEAVIEST) ? TAKEN : NO;
+                    found = templates.meets(step[Plan.MORE], code.stack, code.topAt()) ? TAKEN : NO;
                     break;
                 case Plan.TIMEOUT:
                     long due = part.due[step[Plan.WHAT]];
