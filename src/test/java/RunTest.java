@@ -180,7 +180,7 @@ public final class RunTest {
             {"[]", "x[1]:=1", "2"}, {"[]", "x[-1]:=1", "2"}, {"[1]", "x[0]:=omit", "1"}, {"[1]", "x[5]:=omit", "1"}, {"@f 1", "x.f:=omit", "1"},
             {"{}", "x.f.g:=1", "1"}, {"@f {}", "x.g.h:=1", "1"}, {"[1]", "x[1].f:=1", "2"}, {"[1]", "x[0].f:=1", "1"},
             {"[]", "x[true]:=1/0", "1"}, {"[]", "x[1/0]:=-true", "3"}, {"[]", "x[true][1/0]:=1", "1"}, {"[]", "x[1/0][true]:=1", "3"},
-            {"[]", "x[9]:=1/0", "3"}, {"1", "x.f:=1/0", "3"}, {"[]", "x[9].f:=omit", "2"},
+            {"[]", "x[9]:=1/0", "3"}, {"1", "x.f:=1/0", "3"}, {"[]", "x[9].f:=omit", "2"}, {"{}", "x[0].f:=1", "1"}, {"1", "x[0][0]:=1", "1"}, {"[1]", "x[-1].f:=1", "2"},
             {"[1,2,3,4,5,6,7,8]&[1,2,3,4,5,6,7,8]", "x[16]:=1", "3"}, {"[1,2,3,4,5,6,7,8]&[1,2,3,4,5,6,7,8]", "x[17]:=1", "2"}};
         for (String[] row : rows) errs("", "var x:=" + row[0] + ";" + row[1] + ";", "", Integer.parseInt(row[2]), "");
         errs("var v:N:=1;", "v:=10;", "", 4, "");
@@ -407,6 +407,7 @@ public final class RunTest {
         // 8 components at most; that counts ahead of what is wrong with the vars.
         String seven = "var i:=0;while i<7{create D into d;i:=i+1;}";
         errs("var d:=0;", seven + "create E into d;", d, 7, "8/1/1 8/2/1 8/3/1 8/4/1 8/5/1 8/6/1 8/7/1");
+        logs("var d:=0;", seven + "log d;set pass;", d, 25, "8/1/1 8/2/1 8/3/1 8/4/1 8/5/1 8/6/1 8/7/1 5/0/0=#7 4/0/1 6/0/0");
         // An empty function: it has ended at once.
         logs("var d:=0;", "create C2 into d;start d as e();done d;", "component C2{}function e on C2(){}", 3, "8/1/1 9/1/0 6/1/0 6/0/0");
     }
@@ -628,6 +629,10 @@ public final class RunTest {
         for (int place : new int[] {-1, 8, 9, 99, 102, 107, 108, 1_000, Integer.MAX_VALUE, Integer.MIN_VALUE}) {
             Talk.due("place " + place, talk.x.variable(0, place), MatchHouse.NONE);
         }
+        Talk eight = begun("var a:=1;var b:=1;var c:=1;var d:=1;var e:=1;var f1:=1;var g1:=1;var h1:=8;", "var i:=2;log i;", "");
+        eight.x.run(0, 1);
+        Talk.due("the last var", eight.told(eight.x.variable(0, 7)), "8");
+        Talk.due("no ninth", eight.x.variable(0, 8), MatchHouse.NONE);
         Talk.due("no component", talk.x.variable(1, 0), MatchHouse.BAD);
         Talk.due("no component", talk.x.variable(-1, 0), MatchHouse.BAD);
         talk.x.run(0, 9);

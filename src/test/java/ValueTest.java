@@ -322,6 +322,9 @@ public final class ValueTest {
         talk.x.drop();
         Talk.due("still at hand, dropped", talk.x.letter(1), 'f');
         Talk.due("omit", talk.x.tell(talk.keep("omit")), 4);
+        Talk names = Talk.of("type aaaaaaaa=enum{abcdefgh,abcdefghi,abcdefghijkl,abcdefghijkm,a_9,Z};");
+        for (String name : new String[] {"abcdefgh", "abcdefghi", "abcdefghijkl", "abcdefghijkm", "a_9", "Z"}) Talk.due("name", names.told(names.keep(name)), name);
+        Talk.due("different", names.x.alike(2, 3), 0);
         String deep = Talk.times("@f ", 100) + "[1,[],{}]";
         Talk.due("deep", talk.told(talk.keep(deep)), deep);
         String wide = "[" + Talk.row("{z:=\"" + Talk.times("x", 40) + "\"}", 12) + "]";
