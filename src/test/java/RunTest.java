@@ -187,6 +187,7 @@ public final class RunTest {
         errs("var v:N:=1;", "v:=omit;", "", 4, "");
         errs("", "var a:N:=10;", "", 4, "");
         errs("", "var a:N:=omit;", "", 4, "");
+        errs("", "var a:=10;var b:N:=1;b:=a;", "", 4, "");
         errs("var v:L:=[1];", "v[0]:=10;", "type L=list(1..2)of N;", 4, "");
         errs("var v:L:=[1];", "v[1]:=1;v[2]:=1;", "type L=list(1..2)of N;", 4, "");
         errs("var v:R:={f:=1};", "v.f:=omit;", "type R=record{f:int};", 4, "");

@@ -105,6 +105,9 @@ public final class TemplateTest {
     }
 
     private static void same() {
+        Talk first = Talk.of("template A=*;template B={f:=A};template C=[A,@f A];");
+        Talk.due("OMIT is held against the first template", first.x.met(1, first.keep("{}")), 1);
+        Talk.due("other parts, too", first.x.met(2, first.keep("[[1],@f 1]")), 1);
         holds("=(1+2)", "3", "2 omit");
         holds("=(omit)", "omit", "1");
         holds("=({f:=omit})", "{}", "{f:=1} omit");
@@ -152,6 +155,9 @@ public final class TemplateTest {
         why("{g:=1}", "{h:=1,g:=1,f:=1}", 1000);
         why("{f:={}}", "{f:={h:=1,g:=2}}", 1000, 1001);
         why("@f {g:=1}", "@f {g:=2}", 1000, 1001);
+        why("{f:={g:=1,h:=2}}", "{f:={g:=1,h:=3}}", 1000, 1002);
+        why("{f:=?}", "{f:=[1,2],g:=1,h:=1}", 1001);
+        why("[1,[@f 2,@g {h:=1}]]", "[1,[@f 2,@g {h:=3}]]", 1, 1, 1001, 1002);
         why("@f 1", "@g 1");
         why("@f @g [1,2]", "@f @g [1,3]", 1000, 1001, 1);
         why("[1,[2,3]]", "[1,[2,4]]", 1, 1);

@@ -314,6 +314,10 @@ public final class TextTest {
         // The exp stands within the templ, the templ within the exp.
         Talk.sound("component C{var x:=" + Talk.times("met(1,=(", 8) + "1" + Talk.times("))", 8) + ";}");
         Talk.fault(5, "component C{var x:=" + Talk.times("met(1,=(", 8) + "(^1)" + Talk.times("))", 8) + ";}");
+        nest("component C{}function f on C()", "{alt{[]done me{}[else]{}}if true", "{}", "}", "");
+        Talk.sound("component C{}function f on C(){" + Talk.times("alt{[]done me{", 8) + Talk.times("}}", 8) + "}");
+        Talk.fault(5, "component C{}function f on C(){" + Talk.times("alt{[]done me{", 8) + "alt^{}" + Talk.times("}}", 8) + "}");
+        Talk.fault(5, "component C{}function f on C(){" + Talk.times("if true{", 15) + "if true{}else{if true^{}}" + Talk.times("}", 15) + "}");
         // alts are blocks, too: 1 and 8 times alt and branch are 17.
         Talk.sound("component C{}function f on C(){" + Talk.times("alt{[else]{", 8) + Talk.times("}}", 8) + "}");
         Talk.fault(5, "component C{}function f on C(){" + Talk.times("alt{[else]{", 8) + "if true^{}" + Talk.times("}}", 8) + "}");
@@ -351,6 +355,10 @@ public final class TextTest {
         Talk.fault(4, "component C{}altstep g on C(){}function f on C(){start me as ^g();}");
         Talk.fault(4, "component C{}component D{}altstep g on D(){}function f on C(){usual ^g();}");
         Talk.fault(4, "component C{}function g on C(){}function f on C(){alt{[]step ^g();}}");
+        Talk.fault(4, "component C{}function f on C(){call ^g();}");
+        Talk.fault(4, "component C{}function f on C(){start me as ^g();}");
+        Talk.fault(4, "component C{}function f on C(){usual ^g();}");
+        Talk.fault(4, "component C{}altstep f on C(){[]step ^g();}");
         Talk.fault(4, "component C{}function f on C(){log ^x;}");
         Talk.fault(4, "component C{}function f on C(){log ^x;var x:=1;}");
         Talk.fault(4, "component C{}function f on C(){var x:=^x;}");

@@ -219,6 +219,8 @@ public final class ValueTest {
         within("type A=int(1..2,3..4,2..3);type B=int(4,3,2,1);", 1, 1);
         within("type A=int;type B=int(-999999999999999..999999999999999);", 0, 1);
         within("type A=text(1..2);type B=text;", 1, 0);
+        within("type A=text(1..2);type B=text(2..3);", 0, 0);
+        within("type A=list(1..2)of int;type B=list(2..3)of int;", 0, 0);
         within("type A=enum{a,b};type B=enum{b,c,a};", 1, 0);
         within("type A=bool;type B=int;", 0, 0);
         within("type A=record{f:int};type B=record{f:int optional};", 1, 0);
