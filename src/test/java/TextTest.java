@@ -314,7 +314,6 @@ public final class TextTest {
         // The exp stands within the templ, the templ within the exp.
         Talk.sound("component C{var x:=" + Talk.times("met(1,=(", 8) + "1" + Talk.times("))", 8) + ";}");
         Talk.fault(5, "component C{var x:=" + Talk.times("met(1,=(", 8) + "(^1)" + Talk.times("))", 8) + ";}");
-        nest("component C{}function f on C()", "{alt{[]done me{}[else]{}}if true", "{}", "}", "");
         Talk.sound("component C{}function f on C(){" + Talk.times("alt{[]done me{", 8) + Talk.times("}}", 8) + "}");
         Talk.fault(5, "component C{}function f on C(){" + Talk.times("alt{[]done me{", 8) + "alt^{}" + Talk.times("}}", 8) + "}");
         Talk.fault(5, "component C{}function f on C(){" + Talk.times("if true{", 15) + "if true{}else{if true^{}}" + Talk.times("}", 15) + "}");
