@@ -2198,10 +2198,10 @@ class House:
 
     def enter(s, c, st, r):
         b, loc, f = r
-        if b['ev'] == 'receive' and b['into'] is not None:
-            s.fitcheck(c, b['into'], f if f is not None else c.frames[-1].f, c.q[b['what']][0][0])
         if f is not None and len(c.frames) >= 8:
             raise Err(7)
+        if b['ev'] == 'receive' and b['into'] is not None:
+            s.fitcheck(c, b['into'], f if f is not None else c.frames[-1].f, c.q[b['what']][0][0])
         s.moveon(c)
         if f is not None:
             F = s.push(c, f, [], None)

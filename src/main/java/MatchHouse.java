@@ -4488,6 +4488,8 @@ public final class MatchHouse {
 
         /** Takes the branch that look() found: 0 or the ERROR. */
         private int enter(Part part, int s) {
+            // With no FRAME left for its altstep a branch is not gone into at all, whatever its 'into' would get.
+            if (takenUnit >= 0 && part.frames >= Part.FRAMES) return 7;
             int[] step = plan.steps[takenStep];
             int unit = takenUnit >= 0 ? takenUnit : part.frameUnit[part.frames - 1];
             boolean receives = step[Plan.SORT] == Plan.RECEIVE;
@@ -4497,7 +4499,6 @@ public final class MatchHouse {
                 int type = typeOf(part, unit, into);
                 if (type >= 0 && !types.holds(store.cells, slot * Store.HEAVIEST, types.roots[type])) return 4;
             }
-            if (takenUnit >= 0 && part.frames >= Part.FRAMES) return 7;
             part.frameNext[part.frames - 1] = plan.after(s);
             if (takenUnit >= 0) {
                 part.pushFrame(unit, step[Plan.FIRST]);

@@ -17,6 +17,7 @@ public final class RunTest {
         stopping();
         alternatives();
         altsteps();
+        altstepsWithEightFrames();
         usualWays();
         taking();
         judgements();
@@ -516,6 +517,52 @@ public final class RunTest {
         Talk.due("there is one too many", talk.x.run(0, 99), 1);
         Talk.due("log", log(talk, 2), "7/0/7 4/0/4 6/0/0");
         Talk.due("it is not taken", talk.x.queue(0, 0), 1);
+    }
+
+    /** A branch of an altstep that is so with 8 FRAMES is ERROR 7, whatever it is and its 'into' would get; with 7 it is gone into. */
+    private static void altstepsWithEightFrames() {
+        String[][] ways = {
+            // in the function, altsteps, error with 7 FRAMES, log with 7 FRAMES
+            {"alt{[]step a();}", "altstep a on C(){[]receive p ? into v{}}", "4", ""},
+            {"alt{[]step a(1);}", "altstep a on C(x){[]receive p ?{}[]receive p ? into x{}}", "0", "2/0/0=\"x\" 6/0/0"},
+            {"alt{[]step a();}", "altstep a on C(){[false]receive p ?{var x:N:=1;}[]receive p ? into x{}}", "4", ""},
+            {"alt{[]step a();}", "altstep a on C(){[]step b();}altstep b on C(){[]receive p ? into v{}}", "4", ""},
+            {"usual a();receive q ?;", "altstep a on C(){[]receive p ? into v{}}", "4", ""},
+            {"usual a();alt{}", "altstep a on C(){[]step b();}altstep b on C(){[]receive p \"x\" into w{log w;}}", "0", "2/0/0=\"x\" 5/0/0=\"x\" 6/0/0"},
+            {"begin t 1;alt{[]step a();}", "altstep a on C(){[]timeout t{log 1;}}", "0", "3/0/0 5/0/0=1 6/0/0"},
+            {"alt{[]step a();}", "altstep a on C(){[]done d{log 1;}}", "0", "5/0/0=1 6/0/0"},
+            {"alt{[]step a();}", "altstep a on C(){[else]{}}", "0", "6/0/0"}};
+        for (String[] way : ways) {
+            talkOfFrames(6, way[0], way[1], 7, "");
+            talkOfFrames(5, way[0], way[1], Integer.parseInt(way[2]), way[3]);
+        }
+        // What is no branch of an altstep needs no FRAME: there 'into' is looked at.
+        talkOfFrames(6, "receive p ? into v;", "", 4, "");
+        talkOfFrames(6, "alt{[]receive p ? into v{}}", "", 4, "");
+        talkOfFrames(6, "alt{[false]step a();[]receive p ? into w{log w;}}", "altstep a on C(){[else]{}}", 0, "2/0/0=\"x\" 5/0/0=\"x\" 6/0/0");
+        // What goes wrong as it is looked at comes ahead of what is taken.
+        talkOfFrames(6, "alt{[]step a();}", "altstep a on C(){[1/0==0]receive p ? into v{}}", 3, "");
+        talkOfFrames(6, "alt{[]step a();}", "altstep a on C(){[]receive p =(-true) into v{}}", 1, "");
+    }
+
+    /** So many calls below the case's, then these statements with a TEXT at port p, a timer that has RUN OUT, and d, that has ENDED. */
+    private static void talkOfFrames(int calls, String statements, String others, int error, String want) {
+        Talk talk = begun("port p;port q;timer t;var d:=0;var v:N:=1;var w:=1;", "create D into d;stop d;call f(" + calls + ");",
+            "component D{}function f on C(k){if k>0{call f(k-1);}else{" + statements + "}}" + others);
+        talk.x.run(0, 2);
+        for (int i = 0; i < 99 && talk.x.state(0, 3) < calls + 2; i++) talk.x.run(0, 1);
+        if (statements.startsWith("usual")) talk.x.run(0, 2);
+        int from = (int) talk.x.all(3);
+        if (statements.startsWith("begin")) talk.x.run(0, 2);
+        talk.x.clock(1);
+        talk.x.give(0, 0, talk.keep("\"x\""));
+        talk.x.run(0, 99);
+        String what = statements + others + " with " + (calls + 2);
+        Talk.due("error of " + what, talk.x.state(0, 7), error);
+        Talk.due("log of " + what, log(talk, from), error == 0 ? want : "7/0/" + error + " 4/0/4 6/0/0");
+        if (error == 0) return;
+        Talk.due("it stays in the QUEUE", talk.x.queue(0, 0), 1);
+        Talk.due("v stays", talk.told(talk.x.variable(0, 1)), "1");
     }
 
     private static void usualWays() {
